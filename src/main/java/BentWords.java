@@ -39,7 +39,6 @@ public final class BentWords {
         for (int i = 0; i < MOST_CHANGES; i++) {
             history[i] = new State();
         }
-        changes = 0;
         slots = new State[SLOTS];
         for (int i = 0; i < SLOTS; i++) {
             slots[i] = new State();

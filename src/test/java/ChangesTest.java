@@ -13,8 +13,11 @@ public final class ChangesTest {
         answerAgreed();
         answerTooSoon();
         solvedWordsServe();
+        allWords();
+        mostUnlikeAnswers();
         bend();
         drop();
+        dropForgetsTheVotes();
         trust();
         d.end();
     }
@@ -304,6 +307,38 @@ public final class ChangesTest {
         d.dueWord(0, 0, 0, 0, 0, 0, 0, 0, 1);
     }
 
+    private static void allWords() {
+        d.on("5 answer, of each word");
+        for (int i = 0; i < 12; i++) {
+            d.due("a word", i % 2 == 0 ? d.know("k" + (char) ('a' + i), 0) : d.x.add(9), i);
+        }
+        for (int i = 0; i < 12; i += 2) {
+            String text = "0:" + i + "=k" + (char) ('a' + i) + "+" + (11 - i) + "=u" + (char) ('a' + i) + "@" + (10 + i);
+            d.due("answer of " + text, d.answer(text), 1);
+            d.dueWord(11 - i, 1, 9, 1, 1, 50 + 5 * i / 2, 50 + 5 * i / 2, 10 + i, 0);
+            d.dueVote(11 - i, 0, 1, 50 + 5 * i / 2, 0, 2, 'u', 'a' + i);
+        }
+        d.answer("1:10=x+11=a@9");
+        d.due("word(10, 7)", d.x.word(10, 7), 1);
+        d.dueSolver(0, 80, 6, 6);
+    }
+
+    /** 3 calls, and 3 for each answer; two are left of 512 for the looks. */
+    private static void mostUnlikeAnswers() {
+        d.on("5 answer, as many unlike ones as 512 calls can give");
+        d.x.put(Due.packed("a"));
+        d.x.know(0);
+        d.x.add(0);
+        for (int i = 0; i < 169; i++) {
+            String letters = "" + (char) ('a' + i / 26) + (char) ('a' + i % 26);
+            d.x.put(Due.packed("0:0=a+1="));
+            d.x.put(Due.packed(letters + "@7"));
+            d.due("an answer of " + letters, d.x.answer(), 1);
+        }
+        d.due("word(1, 3)", d.x.word(1, 3), 169);
+        d.due("vote(1, 168, 1)", d.x.vote(1, 168, 1), 100);
+    }
+
     private static void bend() {
         d.on("6 bend");
         d.due("bend(0, 0)", d.x.bend(0, 0), BentWords.NO_SUCH);
@@ -324,6 +359,19 @@ public final class ChangesTest {
         d.dueWord(2, 1, 0, 1, 1, 55, 55, 9);
         d.dueVote(2, 0, 1, 55, 0, 1, 'b');
         d.dueCount(17, 6);
+
+        d.on("6 bend of the word that was voted for second");
+        d.know("abc", 0);
+        d.x.add(9);
+        d.x.add(9);
+        d.answer("0:0=abc+1=stays@9");
+        d.answer("0:0=abc+2=goes@9");
+        d.answer("0:0=abc+1=too@9");
+        d.due("bend(2, 9)", d.x.bend(2, 9), 1);
+        d.dueWord(1, 1, 9, 2, 2, 60, 10, 9, 0);
+        d.dueVote(1, 0, 1, 50, 1, 5, 's', 't', 'a', 'y', 's');
+        d.dueVote(1, 1, 1, 60, 0, 3, 't', 'o', 'o');
+        d.dueWord(2, 1, 9, 0, 0, 0, 0, 0, 0);
 
         d.on("6 bend of a solved and of a retired one");
         d.x.set(BentWords.EARLY, 0);
@@ -390,6 +438,39 @@ public final class ChangesTest {
         d.due("drop(1)", d.x.drop(1), 3);
         d.dueCount(13, 1);
         d.dueCount(14, 1);
+    }
+
+    private static void dropForgetsTheVotes() {
+        d.on("7 drop of what was voted for");
+        d.know("abc", 0);
+        d.x.add(9);
+        d.x.add(9);
+        d.answer("0:0=abc+1=gone@9");
+        d.answer("0:0=abc+1=gone@9");
+        d.answer("0:0=abc+1=gone@9");
+        d.answer("1:0=abc+2=stays@9");
+        d.answer("1:0=abc+2=stays@9");
+        d.x.drop(1);
+        d.dueWord(1, 1, 9, 2, 1, 105, 105, 9, 0);
+        d.dueVote(1, 0, 2, 105, 0, 5, 's', 't', 'a', 'y', 's');
+        d.x.add(9);
+        d.due("vote(2, 0, 0)", d.x.vote(2, 0, 0), BentWords.NO_SUCH);
+        d.answer("2:0=abc+2=gone@9");
+        d.dueVote(2, 0, 1, 50, 0, 4, 'g', 'o', 'n', 'e');
+        d.dueWord(2, 1, 9, 1, 1, 50, 50, 9, 0);
+        d.x.drop(1);
+        d.x.drop(1);
+        d.x.drop(0);
+        d.dueCount(6, 0);
+        d.due("a word 0", d.x.add(9), 0);
+        d.due("vote(0, 0, 0)", d.x.vote(0, 0, 0), BentWords.NO_SUCH);
+        d.know("abc", 0);
+        d.answer("3:1=abc+0=first@9");
+        d.dueVote(0, 0, 1, 50, 0, 5);
+        d.x.drop(0);
+        d.x.add(9);
+        d.due("vote(1, 0, 0)", d.x.vote(1, 0, 0), BentWords.NO_SUCH);
+        d.due("vote(0, 0, 0) of a known one", d.x.vote(0, 0, 0), BentWords.NO_SUCH);
     }
 
     private static void trust() {

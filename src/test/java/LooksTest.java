@@ -101,6 +101,10 @@ public final class LooksTest {
         for (int i = 0; i < 6; i++) {
             d.due("solver(" + i + ", 3)", d.x.solver(i, 3), places[i]);
         }
+        d.x.trust(3, 51);
+        d.due("solver(3, 3) of 51", d.x.solver(3, 3), 1);
+        d.due("solver(2, 3) of 50", d.x.solver(2, 3), 2);
+        d.x.trust(3, 50);
         d.know("cat", 0);
         d.x.add(9);
         d.answer("3:0=cat+1=a@1");

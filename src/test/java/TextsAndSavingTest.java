@@ -109,6 +109,9 @@ public final class TextsAndSavingTest {
             d.due("fault of " + whole.substring(0, end), d.fault(whole.substring(0, end)), end);
         }
         d.due("fault of " + whole, d.fault(whole), BentWords.NONE);
+        for (int end = whole.length() - 2; end >= 0; end--) {
+            d.due("fault of " + whole.substring(0, end) + ", behind a longer one", d.fault(whole.substring(0, end)), end);
+        }
         d.on("20 fault, the first one");
         d.due("fault of two faults", d.fault("0:3=Abc+11=dEf@99"), 4);
         d.due("fault of what goes on", d.fault(whole + whole), whole.length());
@@ -224,6 +227,30 @@ public final class TextsAndSavingTest {
         d.know("dog", 0);
         d.due("undo()", d.x.undo(), 5);
         d.dueCount(6, 3);
+
+        d.on("21 undo behind other votes at the same place");
+        d.know("cat", 3);
+        d.x.add(9);
+        d.answer("0:0=cat+1=one@7");
+        d.answer("0:0=cat+1=one@7");
+        d.x.bend(1, 9);
+        d.answer("1:0=cat+1=other@7");
+        d.dueVote(1, 0, 1, 50, 0, 5, 'o', 't', 'h', 'e', 'r');
+        d.due("undo()", d.x.undo(), 5);
+        d.due("undo()", d.x.undo(), 4);
+        d.dueWord(1, 1, 9, 2, 1, 105, 105, 7, 0);
+        d.dueVote(1, 0, 2, 105, 0, 3, 'o', 'n', 'e');
+
+        d.on("21 undo of a second answer with more weight");
+        d.know("cat", 0);
+        d.x.add(9);
+        d.answer("0:0=cat+1=one@7");
+        d.x.trust(1, 99);
+        d.answer("1:0=cat+1=two@7");
+        d.dueVote(1, 0, 1, 50, 1);
+        d.x.undo();
+        d.dueVote(1, 0, 1, 50, 0);
+        d.dueWord(1, 1, 9, 1, 1, 50, 50, 7, 0);
     }
 
     private static void saveAndRestore() {

@@ -197,5 +197,11 @@ public final class WhatIfTest {
         d.due("nearest() with a vote of weight 0", d.x.nearest(), 3);
         d.x.drop(3);
         d.due("nearest() of one", d.x.nearest(), 1);
+        d.x.drop(0);
+        d.due("nearest() of word 0", d.x.nearest(), 0);
+        d.x.set(BentWords.AGREE, 10);
+        d.x.set(BentWords.LEAD, 0);
+        d.x.add(0);
+        d.due("nearest() of word 2", d.x.nearest(), 2);
     }
 }
