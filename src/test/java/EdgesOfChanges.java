@@ -36,7 +36,9 @@ final class EdgesOfChanges {
             d.due("drop(0)", d.x.drop(0), BentWords.NO_SUCH);
             d.due("mostMissed()", d.x.mostMissed(), BentWords.NONE);
             d.due("nearest()", d.x.nearest(), BentWords.NONE);
-        }).brokenBy("int wordCount, retiredSoFar", "wordCount", "wordCount = 1").brokenBy("FIRST_TRUST = 50", "50", "0");
+        })
+            .brokenBy("int wordCount, retiredSoFar", "wordCount", "wordCount = 1")
+            .brokenBy("FIRST_TRUST = 50", "50", "0");
     }
 
     private static void set(Edges e) {
@@ -54,8 +56,11 @@ final class EdgesOfChanges {
             d.x.set(BentWords.FAST, 60);
             d.dueWord(2, 2);
             d.due("a vote for word 1", d.right(2, 1, "a", 9), 3);
-        }).brokenBy("now.settings[setting] = value;", "now.settings[setting] = value; if (now.ballot.size > 0) { now.lookBehindVote(1); }")
-            .brokenBy("if (weightLacking(number) > 0) {", "if (words[1].votes > 0) { words[1].kind = SOLVED; } if (weightLacking(number) > 0) {");
+        })
+            .brokenBy("now.settings[setting] = value;",
+                "now.settings[setting] = value; if (now.ballot.size > 0) { now.lookBehindVote(1); }")
+            .brokenBy("if (weightLacking(number) > 0) {",
+                "if (words[1].votes > 0) { words[1].kind = SOLVED; } if (weightLacking(number) > 0) {");
 
         e.edge("BAD_VALUE if there is no such setting", d -> {
             int[] settings = {-1, 6, Integer.MIN_VALUE, Integer.MAX_VALUE};
@@ -65,7 +70,9 @@ final class EdgesOfChanges {
             }
             d.due("set(5, 20)", d.x.set(5, 20), 10);
             d.due("set(0, 20)", d.x.set(0, 20), 100);
-        }).brokenBy("isWithin(setting, 0, SETTINGS - 1) ||", "0", "-1").brokenBy("isWithin(setting, 0, SETTINGS - 1) ||", "0", "1")
+        })
+            .brokenBy("isWithin(setting, 0, SETTINGS - 1) ||", "0", "-1")
+            .brokenBy("isWithin(setting, 0, SETTINGS - 1) ||", "0", "1")
             .brokenBy("isWithin(setting, 0, SETTINGS - 1) ||", "SETTINGS - 1", "SETTINGS")
             .brokenBy("isWithin(setting, 0, SETTINGS - 1) ||", "SETTINGS - 1", "SETTINGS - 2")
             .brokenBy("public int set", "return BAD_VALUE", "return NO_SUCH");
@@ -82,7 +89,8 @@ final class EdgesOfChanges {
             }
         }).brokenBy("!isWithin(value, LOWEST[setting], HIGHEST[setting])", "value < LOWEST[setting]")
             .brokenBy("!isWithin(value, LOWEST[setting], HIGHEST[setting])", "value > HIGHEST[setting]")
-            .brokenBy("!isWithin(value, LOWEST[setting], HIGHEST[setting])", "!isWithin(value, LOWEST[setting], HIGHEST[setting] - 1)");
+            .brokenBy("!isWithin(value, LOWEST[setting], HIGHEST[setting])",
+                "!isWithin(value, LOWEST[setting], HIGHEST[setting] - 1)");
     }
 
     private static void know(Edges e) {
@@ -95,14 +103,18 @@ final class EdgesOfChanges {
             d.dueLetters(1, "abcdef");
             d.due("know(0) once more", d.x.know(0), BentWords.BAD_TEXT);
             d.due("put of one", d.x.put('x'), 1);
-        }).brokenBy("public int know", "pad.length = 0;", "").brokenBy("public int know", "pad.length = 0;", "pad.length = Math.max(0, pad.length - 5);");
+        })
+            .brokenBy("public int know", "pad.length = 0;", "")
+            .brokenBy("public int know", "pad.length = 0;", "pad.length = Math.max(0, pad.length - 5);");
 
         e.edge("bend: 0 to 9", d -> {
             d.due("know(0)", d.know("a", 0), 0);
             d.due("know(9)", d.know("a", 9), 1);
             d.dueWord(0, 0, 0);
             d.dueWord(1, 0, 9);
-        }).brokenBy("public int know", "isWithin(bend, 0,", "isWithin(bend, 1,").brokenBy("public int know", "MOST_BEND", "MOST_BEND - 1");
+        })
+            .brokenBy("public int know", "isWithin(bend, 0,", "isWithin(bend, 1,")
+            .brokenBy("public int know", "MOST_BEND", "MOST_BEND - 1");
 
         e.edge("BAD_VALUE if bend is out of range", d -> {
             int[] bends = {-1, 10, Integer.MIN_VALUE, Integer.MAX_VALUE};
@@ -110,8 +122,11 @@ final class EdgesOfChanges {
                 d.due("know(" + bend + ")", d.know("a", bend), BentWords.BAD_VALUE);
             }
             d.dueCount(6, 0);
-        }).brokenBy("public int know", "isWithin(bend, 0,", "isWithin(bend, -1,").brokenBy("public int know", "MOST_BEND", "MOST_BEND + 1")
-            .brokenBy("public int know", "!isWithin(bend, 0, MOST_BEND)", "bend < 0").brokenBy("public int know", "BAD_VALUE", "BAD_TEXT");
+        })
+            .brokenBy("public int know", "isWithin(bend, 0,", "isWithin(bend, -1,")
+            .brokenBy("public int know", "MOST_BEND", "MOST_BEND + 1")
+            .brokenBy("public int know", "!isWithin(bend, 0, MOST_BEND)", "bend < 0")
+            .brokenBy("public int know", "BAD_VALUE", "BAD_TEXT");
 
         e.edge("BAD_TEXT if the pad is not one to six letters a to z", d -> {
             String[] bad = {"", "abcdefg", "abcdef+", "`", "{", "a`", "{a", "A", "Z", "abcdeZ", "a1", "1a", "ab=cd", "!", "~", "0:0=a+1=b@9",
@@ -125,7 +140,8 @@ final class EdgesOfChanges {
             d.due("know of abcdef", d.know("abcdef", 0), 2);
         }).brokenBy("return at == pad.length ? letters : 0;", "at == pad.length ? letters : 0", "letters")
             .brokenBy("public int know", "if (letters == 0) {", "if (letters == 0 && pad.length > 0) {")
-            .brokenBy("MOST_LETTERS = 6", "6", "7").brokenBy("MOST_LETTERS = 6", "6", "5")
+            .brokenBy("MOST_LETTERS = 6", "6", "7")
+            .brokenBy("MOST_LETTERS = 6", "6", "5")
             .brokenBy("public int know", "BAD_TEXT", "BAD_VALUE");
 
         e.edge("TOO_MANY if there are 12 words", d -> {
@@ -138,10 +154,13 @@ final class EdgesOfChanges {
             d.x.drop(5);
             d.due("a 12th again", d.x.know(3), 11);
             d.dueWord(11, 0, 3);
-        }).brokenBy("return wordCount < MOST_WORDS;", "MOST_WORDS", "MOST_WORDS - 1").brokenBy("public int know", "TOO_MANY", "NOT_POSSIBLE")
+        })
+            .brokenBy("return wordCount < MOST_WORDS;", "MOST_WORDS", "MOST_WORDS - 1")
+            .brokenBy("public int know", "TOO_MANY", "NOT_POSSIBLE")
             .brokenBy("public int know", "!now.hasRoom()", "false");
 
-        e.edge("BAD_VALUE if bend is out of range; BAD_TEXT if the pad is not one to six letters a to z; TOO_MANY if there are 12 words", d -> {
+        e.edge("BAD_VALUE if bend is out of range; BAD_TEXT if the pad is not one to six letters a to z; TOO_MANY if"
+            + " there are 12 words", d -> {
             d.due("know(10) of A", d.know("A", 10), BentWords.BAD_VALUE);
             for (int i = 0; i < 12; i++) {
                 d.know("a", 1);
@@ -152,7 +171,8 @@ final class EdgesOfChanges {
             d.due("a 13th of a", d.know("a", 0), BentWords.TOO_MANY);
         }).brokenBy("public int know", "!isWithin(bend, 0, MOST_BEND)", "now.hasRoom() && !isWithin(bend, 0, MOST_BEND)")
             .brokenBy("public int know", "letters == 0", "now.hasRoom() && letters == 0")
-            .brokenBy("public int know", "!isWithin(bend, 0, MOST_BEND)", "reading.readWholeAsLetters() != 0 && !isWithin(bend, 0, MOST_BEND)");
+            .brokenBy("public int know", "!isWithin(bend, 0, MOST_BEND)",
+                "reading.readWholeAsLetters() != 0 && !isWithin(bend, 0, MOST_BEND)");
     }
 
     private static void add(Edges e) {
@@ -161,7 +181,9 @@ final class EdgesOfChanges {
             d.due("add(9)", d.x.add(9), 1);
             d.dueWord(0, 1, 0);
             d.dueWord(1, 1, 9);
-        }).brokenBy("public int add", "isWithin(bend, 0,", "isWithin(bend, 1,").brokenBy("public int add", "MOST_BEND", "MOST_BEND - 1");
+        })
+            .brokenBy("public int add", "isWithin(bend, 0,", "isWithin(bend, 1,")
+            .brokenBy("public int add", "MOST_BEND", "MOST_BEND - 1");
 
         e.edge("BAD_VALUE if bend is out of range", d -> {
             int[] bends = {-1, 10, Integer.MIN_VALUE, Integer.MAX_VALUE};
@@ -169,8 +191,11 @@ final class EdgesOfChanges {
                 d.due("add(" + bend + ")", d.x.add(bend), BentWords.BAD_VALUE);
             }
             d.dueCount(6, 0);
-        }).brokenBy("public int add", "isWithin(bend, 0,", "isWithin(bend, -1,").brokenBy("public int add", "MOST_BEND", "MOST_BEND + 1")
-            .brokenBy("public int add", "!isWithin(bend, 0, MOST_BEND)", "bend < 0").brokenBy("public int add", "BAD_VALUE", "NO_SUCH");
+        })
+            .brokenBy("public int add", "isWithin(bend, 0,", "isWithin(bend, -1,")
+            .brokenBy("public int add", "MOST_BEND", "MOST_BEND + 1")
+            .brokenBy("public int add", "!isWithin(bend, 0, MOST_BEND)", "bend < 0")
+            .brokenBy("public int add", "BAD_VALUE", "NO_SUCH");
 
         e.edge("TOO_MANY if there are 12 words", d -> {
             d.pad("abc");
@@ -186,7 +211,9 @@ final class EdgesOfChanges {
             d.dueCount(16, 3);
             d.x.undo();
             d.due("a 12th once more", d.x.add(4), 11);
-        }).brokenBy("return wordCount < MOST_WORDS;", "MOST_WORDS", "MOST_WORDS - 1").brokenBy("public int add", "TOO_MANY", "NOT_POSSIBLE")
+        })
+            .brokenBy("return wordCount < MOST_WORDS;", "MOST_WORDS", "MOST_WORDS - 1")
+            .brokenBy("public int add", "TOO_MANY", "NOT_POSSIBLE")
             .brokenBy("public int add", "!now.hasRoom()", "false");
 
         e.edge("BAD_VALUE if bend is out of range; TOO_MANY if there are 12 words", d -> {
@@ -209,7 +236,8 @@ final class EdgesOfChanges {
             d.dueCount(16, 0);
             d.dueCount(11, 3);
         }).brokenBy("public int answer()", "pad.length = 0;", "")
-            .brokenBy("public int answer()", "pad.length = 0;", "if (now.words[reading.told.word].letters == reading.told.letters) { pad.length = 0; }");
+            .brokenBy("public int answer()", "pad.length = 0;",
+                "if (now.words[reading.told.word].letters == reading.told.letters) { pad.length = 0; }");
 
         e.edge("Returns the kind of the unknown word then", d -> {
             d.agreeAtOnce();
@@ -246,7 +274,8 @@ final class EdgesOfChanges {
             d.dueCount(11, 0);
             d.due("without a fault", d.answer("0:0=cat+1=a@9"), 1);
         }).brokenBy("public int answer()", "reading.readWholeAsAnswer() != NONE", "reading.readWholeAsAnswer() == 0")
-            .brokenBy("public int answer()", "reading.readWholeAsAnswer() != NONE", "isWithin(reading.readWholeAsAnswer(), 0, pad.length - 1)")
+            .brokenBy("public int answer()", "reading.readWholeAsAnswer() != NONE",
+                "isWithin(reading.readWholeAsAnswer(), 0, pad.length - 1)")
             .brokenBy("public int answer()", "BAD_TEXT", "BAD_VALUE");
 
         e.edge("NO_SUCH if there is no such word", d -> {
@@ -275,7 +304,9 @@ final class EdgesOfChanges {
             d.due("a solved one first", d.answer("0:2=dog+1=a@9"), 1);
             d.due("a known one first", d.answer("0:0=cat+1=a@9"), 1);
             d.dueCount(12, 4);
-        }).brokenBy("!now.words[reading.told.word].isTold() ||", "").brokenBy("!now.words[reading.told.word].isTold() ||", "now.words[reading.told.word].kind == RETIRED ||")
+        })
+            .brokenBy("!now.words[reading.told.word].isTold() ||", "")
+            .brokenBy("!now.words[reading.told.word].isTold() ||", "now.words[reading.told.word].kind == RETIRED ||")
             .brokenBy("!now.words[reading.told.word].isTold() ||", "now.words[reading.told.word].kind == UNKNOWN ||")
             .brokenBy("!now.words[reading.told.word].isTold() ||", "now.words[reading.told.word].kind != KNOWN ||");
 
@@ -287,10 +318,13 @@ final class EdgesOfChanges {
             d.due("a solved one twice", d.answer("0:2=dog+2=a@9"), BentWords.NOT_POSSIBLE);
             d.due("an answer that is wrong, to a known one", d.wrong(0, 0, "a", 9), BentWords.NOT_POSSIBLE);
             d.due("an unknown one second", d.right(0, 1, "a", 9), 1);
-        }).brokenBy("public int answer()", "|| other.kind != UNKNOWN", "").brokenBy("public int answer()", "other.kind != UNKNOWN", "other.kind == KNOWN")
+        })
+            .brokenBy("public int answer()", "|| other.kind != UNKNOWN", "")
+            .brokenBy("public int answer()", "other.kind != UNKNOWN", "other.kind == KNOWN")
             .brokenBy("public int answer()", "other.kind != UNKNOWN", "other.kind == RETIRED");
 
-        e.edge("BAD_TEXT if the pad has a fault; NO_SUCH if there is no such word; NOT_POSSIBLE if the first word is neither known nor solved,"
+        e.edge("BAD_TEXT if the pad has a fault; NO_SUCH if there is no such word; NOT_POSSIBLE if the first word is"
+            + " neither known nor solved,"
             + " or the second one is not unknown", d -> {
             d.due("a text that goes on, without words", d.answer("0:0=a+1=b@77"), BentWords.BAD_TEXT);
             d.oneOfEachKind();
@@ -298,7 +332,9 @@ final class EdgesOfChanges {
             d.due("from an unknown word to none", d.answer("0:1=a+4=b@9"), BentWords.NO_SUCH);
             d.due("from none to a known word", d.answer("0:4=a+0=b@9"), BentWords.NO_SUCH);
             d.due("from a retired word to none", d.answer("0:3=a+11=b@9"), BentWords.NO_SUCH);
-        }).brokenBy("|| !now.hasWord(reading.other.word)", "|| now.words[reading.told.word].isTold() && !now.hasWord(reading.other.word)")
+        })
+            .brokenBy("|| !now.hasWord(reading.other.word)",
+                "|| now.words[reading.told.word].isTold() && !now.hasWord(reading.other.word)")
             .brokenBy("public int answer()", "reading.readWholeAsAnswer() != NONE",
                 "reading.readWholeAsAnswer() != NONE && now.wordCount > 0");
     }
@@ -320,11 +356,20 @@ final class EdgesOfChanges {
             }
             d.due("mostMissed()", d.x.mostMissed(), BentWords.NONE);
             d.due("lacking(3)", d.x.lacking(3), 40);
+            d.x.set(BentWords.AGREE, 400);
             d.right(1, 1, "z", 5);
-            d.due("word(1, 6) with a new vote", d.x.word(1, 6), 5);
-        }).brokenBy("void begin", "votes = 0;", "").brokenBy("void begin", "missed = 0;", "").brokenBy("void begin", "seconds = 0;", "")
-            .brokenBy("public int bend", "now.ballot.forget(word);", "").brokenBy("void begin", "letters = newLetters;", "letters = newLetters == 0 ? letters : newLetters;")
-            .brokenBy("public int bend", "UNKNOWN, bend", "before, bend").brokenBy("void begin", "bend = newBend;", "bend = Math.max(bend, newBend);");
+            d.dueWord(1, 1, 1, 1, 1, 55, 55, 5);
+            d.dueVote(1, 0, 1, 55, 0, 1, 'z', BentWords.NONE);
+        })
+            .brokenBy("void begin", "votes = 0;", "")
+            .brokenBy("void begin", "missed = 0;", "")
+            .brokenBy("void begin", "seconds = 0;", "")
+            .brokenBy("public int bend", "now.ballot.forget(word);", "")
+            .brokenBy("void begin", "letters = newLetters;", "letters = newLetters == 0 ? letters : newLetters;")
+            .brokenBy("public int bend", "UNKNOWN, bend", "before, bend")
+            .brokenBy("void begin", "bend = newBend;", "bend = Math.max(bend, newBend);")
+            .brokenBy("boolean cast", "votes[place] = 0;", "")
+            .brokenBy("boolean cast", "weights[place] = 0;", "");
 
         e.edge("Bends a word anew: it is unknown, without votes, and not missed any more", d -> {
             d.catAnd(9, 9, 9);
@@ -333,17 +378,22 @@ final class EdgesOfChanges {
                     d.right(word, word, round == 0 ? "a" : "b", 9);
                 }
             }
+            d.right(3, 3, "b", 9);
             d.x.bend(2, 9);
             d.dueWord(1, 1, 9, 2, 2, 55, 5, 9);
+            d.dueVote(1, 0, 1, 50, 1, 1, 'a');
+            d.dueVote(1, 1, 1, 55, 0, 1, 'b');
             d.dueWord(2, 1, 9, 0, 0, 0, 0, 0);
-            d.dueWord(3, 1, 9, 2, 2, 55, 5, 9);
-            for (int word = 1; word < 4; word += 2) {
-                d.dueVote(word, 0, 1, 50, 1, 1, 'a');
-                d.dueVote(word, 1, 1, 55, 0, 1, 'b');
-            }
-        }).brokenBy("void forget", "words[i] != word", "words[i] < word").brokenBy("void forget", "words[i] != word", "words[i] > word")
-            .brokenBy("void forget", "weights[kept] = weights[i];", "").brokenBy("void forget", "letters[kept] = letters[i];", "")
-            .brokenBy("void forget", "words[kept] = words[i];", "");
+            d.dueWord(3, 1, 9, 3, 2, 115, 65, 9);
+            d.dueVote(3, 0, 1, 50, 1, 1, 'a');
+            d.dueVote(3, 1, 2, 115, 0, 1, 'b');
+        })
+            .brokenBy("void forget", "words[i] != word", "words[i] < word")
+            .brokenBy("void forget", "words[i] != word", "words[i] > word")
+            .brokenBy("void forget", "weights[kept] = weights[i];", "")
+            .brokenBy("void forget", "letters[kept] = letters[i];", "")
+            .brokenBy("void forget", "words[kept] = words[i];", "")
+            .brokenBy("void forget", "votes[kept] = votes[i];", "");
 
         e.edge("bend: 0 to 9", d -> {
             d.x.add(5);
@@ -351,7 +401,9 @@ final class EdgesOfChanges {
             d.dueWord(0, 1, 0);
             d.due("bend(0, 9)", d.x.bend(0, 9), 1);
             d.dueWord(0, 1, 9);
-        }).brokenBy("public int bend", "isWithin(bend, 0,", "isWithin(bend, 1,").brokenBy("public int bend", "MOST_BEND", "MOST_BEND - 1");
+        })
+            .brokenBy("public int bend", "isWithin(bend, 0,", "isWithin(bend, 1,")
+            .brokenBy("public int bend", "MOST_BEND", "MOST_BEND - 1");
 
         e.edge("Returns its kind before", d -> {
             d.oneOfEachKind();
@@ -359,7 +411,9 @@ final class EdgesOfChanges {
                 d.due("bend(" + word + ", 0)", d.x.bend(word, 0), word);
                 d.due("bend(" + word + ", 0) once more", d.x.bend(word, 0), 1);
             }
-        }).brokenBy("public int bend", "return before;", "return UNKNOWN;").brokenBy("public int bend", "return before;", "return Math.min(before, SOLVED);");
+        })
+            .brokenBy("public int bend", "return before;", "return UNKNOWN;")
+            .brokenBy("public int bend", "return before;", "return Math.min(before, SOLVED);");
     }
 
     private static void bendRefused(Edges e) {
@@ -371,7 +425,9 @@ final class EdgesOfChanges {
                 d.due("bend(" + word + ", 0)", d.x.bend(word, 0), BentWords.NO_SUCH);
             }
             d.due("bend(0, 0)", d.x.bend(0, 0), 1);
-        }).brokenBy("public int bend", "!now.hasWord(word)", "word >= now.wordCount").brokenBy("public int bend", "!now.hasWord(word)", "word < 0 || word > now.wordCount")
+        })
+            .brokenBy("public int bend", "!now.hasWord(word)", "word >= now.wordCount")
+            .brokenBy("public int bend", "!now.hasWord(word)", "word < 0 || word > now.wordCount")
             .brokenBy("public int bend", "NO_SUCH", "BAD_VALUE");
 
         e.edge("BAD_VALUE if bend is out of range", d -> {
@@ -381,15 +437,20 @@ final class EdgesOfChanges {
                 d.due("bend(0, " + bend + ")", d.x.bend(0, bend), BentWords.BAD_VALUE);
             }
             d.dueWord(0, 1, 5);
-        }).brokenBy("public int bend", "isWithin(bend, 0,", "isWithin(bend, -1,").brokenBy("public int bend", "MOST_BEND", "MOST_BEND + 1")
-            .brokenBy("public int bend", "!isWithin(bend, 0, MOST_BEND)", "bend < 0").brokenBy("public int bend", "BAD_VALUE", "NOT_POSSIBLE");
+        })
+            .brokenBy("public int bend", "isWithin(bend, 0,", "isWithin(bend, -1,")
+            .brokenBy("public int bend", "MOST_BEND", "MOST_BEND + 1")
+            .brokenBy("public int bend", "!isWithin(bend, 0, MOST_BEND)", "bend < 0")
+            .brokenBy("public int bend", "BAD_VALUE", "NOT_POSSIBLE");
 
         e.edge("NOT_POSSIBLE if it is known (0)", d -> {
             d.oneOfEachKind();
             d.due("bend(0, 3)", d.x.bend(0, 3), BentWords.NOT_POSSIBLE);
             d.dueWord(0, 0, 0);
             d.due("bend(2, 3) of a solved one", d.x.bend(2, 3), 2);
-        }).brokenBy("public int bend", "before == KNOWN", "false").brokenBy("public int bend", "before == KNOWN", "before == KNOWN || before == SOLVED")
+        })
+            .brokenBy("public int bend", "before == KNOWN", "false")
+            .brokenBy("public int bend", "before == KNOWN", "before == KNOWN || before == SOLVED")
             .brokenBy("public int bend", "NOT_POSSIBLE", "BAD_VALUE");
 
         e.edge("NO_SUCH if there is no such word; BAD_VALUE if bend is out of range; NOT_POSSIBLE if it is known (0)", d -> {
@@ -399,7 +460,8 @@ final class EdgesOfChanges {
             d.due("bend(0, 10) of a known one", d.x.bend(0, 10), BentWords.BAD_VALUE);
             d.due("bend(0, -1) of a known one", d.x.bend(0, -1), BentWords.BAD_VALUE);
         }).brokenBy("public int bend", "!now.hasWord(word)", "!now.hasWord(word) && isWithin(bend, 0, MOST_BEND)")
-            .brokenBy("public int bend", "!isWithin(bend, 0, MOST_BEND)", "now.words[word].kind != KNOWN && !isWithin(bend, 0, MOST_BEND)");
+            .brokenBy("public int bend", "!isWithin(bend, 0, MOST_BEND)",
+                "now.words[word].kind != KNOWN && !isWithin(bend, 0, MOST_BEND)");
     }
 
     private static void drop(Edges e) {
@@ -419,7 +481,9 @@ final class EdgesOfChanges {
                 }
                 d.due("word(11, 0)", d.x.word(11, 0), BentWords.NO_SUCH);
             }
-        }).brokenBy("void remove", "int i = word + 1", "int i = Math.max(word, 1)").brokenBy("void remove", "i < wordCount", "i < wordCount - 1")
+        })
+            .brokenBy("void remove", "int i = word + 1", "int i = Math.max(word, 1)")
+            .brokenBy("void remove", "i < wordCount", "i < wordCount - 1")
             .brokenBy("void remove", "wordCount--;", "");
 
         e.edge(behind, d -> {
@@ -441,8 +505,11 @@ final class EdgesOfChanges {
                 d.due("vote(4, 0, 0)", d.x.vote(4, 0, 0), BentWords.NO_SUCH);
                 d.dueWord(3, 1, 9, 2, 2);
             }
-        }).brokenBy("void remove", "ballot.forget(word);", "").brokenBy("void remove", "ballot.renumberBehind(word);", "")
-            .brokenBy("void renumberBehind", "words[i] > word", "words[i] > word + 1").brokenBy("void remove", "words[wordCount] = dropped;", "");
+        })
+            .brokenBy("void remove", "ballot.forget(word);", "")
+            .brokenBy("void remove", "ballot.renumberBehind(word);", "")
+            .brokenBy("void renumberBehind", "words[i] > word", "words[i] > word + 1")
+            .brokenBy("void remove", "words[wordCount] = dropped;", "");
 
         e.edge("Returns its kind", d -> {
             d.oneOfEachKind();
@@ -450,7 +517,9 @@ final class EdgesOfChanges {
                 d.due("drop(0) of kind " + kind, d.x.drop(0), kind);
             }
             d.dueCount(6, 0);
-        }).brokenBy("public int drop", "return kind;", "return Math.min(SOLVED, kind);").brokenBy("public int drop", "return kind;", "return now.wordCount;");
+        })
+            .brokenBy("public int drop", "return kind;", "return Math.min(SOLVED, kind);")
+            .brokenBy("public int drop", "return kind;", "return now.wordCount;");
 
         e.edge("NO_SUCH if there is no such word", d -> {
             d.due("drop(0) without words", d.x.drop(0), BentWords.NO_SUCH);
@@ -463,7 +532,9 @@ final class EdgesOfChanges {
             d.due("drop(1) once more", d.x.drop(1), BentWords.NO_SUCH);
             d.due("drop(0)", d.x.drop(0), 0);
             d.due("drop(0) once more", d.x.drop(0), BentWords.NO_SUCH);
-        }).brokenBy("public int drop", "!now.hasWord(word)", "word >= now.wordCount").brokenBy("public int drop", "!now.hasWord(word)", "word < 0 || word > now.wordCount")
+        })
+            .brokenBy("public int drop", "!now.hasWord(word)", "word >= now.wordCount")
+            .brokenBy("public int drop", "!now.hasWord(word)", "word < 0 || word > now.wordCount")
             .brokenBy("public int drop", "NO_SUCH", "NOT_POSSIBLE");
     }
 
@@ -476,7 +547,9 @@ final class EdgesOfChanges {
             d.due("trust(5, 100)", d.x.trust(5, 100), 50);
             d.due("trust(5, 0)", d.x.trust(5, 0), 100);
             d.dueSolver(5, 0);
-        }).brokenBy("isWithin(trust, 0, MOST_TRUST)", "0", "1").brokenBy("isWithin(trust, 0, MOST_TRUST)", "MOST_TRUST", "MOST_TRUST - 1");
+        })
+            .brokenBy("isWithin(trust, 0, MOST_TRUST)", "0", "1")
+            .brokenBy("isWithin(trust, 0, MOST_TRUST)", "MOST_TRUST", "MOST_TRUST - 1");
 
         e.edge("NO_SUCH if there is no such solver", d -> {
             int[] solvers = {-1, 6, Integer.MIN_VALUE, Integer.MAX_VALUE};
@@ -484,8 +557,11 @@ final class EdgesOfChanges {
                 d.due("trust(" + solver + ", 50)", d.x.trust(solver, 50), BentWords.NO_SUCH);
             }
             d.dueCount(15, 300);
-        }).brokenBy("public int trust", "!isSolver(solver)", "solver < 0").brokenBy("public int trust", "!isSolver(solver)", "solver >= SOLVERS")
-            .brokenBy("public int trust", "NO_SUCH", "BAD_VALUE").brokenBy("isWithin(solver, 0, SOLVERS - 1)", "SOLVERS - 1", "SOLVERS");
+        })
+            .brokenBy("public int trust", "!isSolver(solver)", "solver < 0")
+            .brokenBy("public int trust", "!isSolver(solver)", "solver >= SOLVERS")
+            .brokenBy("public int trust", "NO_SUCH", "BAD_VALUE")
+            .brokenBy("isWithin(solver, 0, SOLVERS - 1)", "SOLVERS - 1", "SOLVERS");
 
         e.edge("BAD_VALUE if trust is out of range", d -> {
             int[] trusts = {-1, 101, Integer.MIN_VALUE, Integer.MAX_VALUE};
@@ -493,8 +569,11 @@ final class EdgesOfChanges {
                 d.due("trust(3, " + trust + ")", d.x.trust(3, trust), BentWords.BAD_VALUE);
             }
             d.dueSolver(3, 50);
-        }).brokenBy("isWithin(trust, 0, MOST_TRUST)", "0", "-1").brokenBy("isWithin(trust, 0, MOST_TRUST)", "MOST_TRUST", "MOST_TRUST + 1")
-            .brokenBy("public int trust", "!isWithin(trust, 0, MOST_TRUST)", "trust < 0").brokenBy("public int trust", "BAD_VALUE", "NO_SUCH");
+        })
+            .brokenBy("isWithin(trust, 0, MOST_TRUST)", "0", "-1")
+            .brokenBy("isWithin(trust, 0, MOST_TRUST)", "MOST_TRUST", "MOST_TRUST + 1")
+            .brokenBy("public int trust", "!isWithin(trust, 0, MOST_TRUST)", "trust < 0")
+            .brokenBy("public int trust", "BAD_VALUE", "NO_SUCH");
 
         e.edge("NO_SUCH if there is no such solver; BAD_VALUE if trust is out of range", d -> {
             d.due("trust(6, 101)", d.x.trust(6, 101), BentWords.NO_SUCH);

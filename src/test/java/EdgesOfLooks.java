@@ -36,11 +36,16 @@ final class EdgesOfLooks {
             }
             d.due("votes of a known one", d.x.word(0, 2), 0);
             d.due("unlike answers of a known one", d.x.word(0, 3), 0);
-        }).brokenBy("int unlikeAnswers", "many = 0", "many = 1").brokenBy("case 3: return now.ballot.unlikeAnswers(word);", "now.ballot.unlikeAnswers(word)", "asked.votes")
-            .brokenBy("int unlikeAnswers", "words[i] == word", "words[i] >= word").brokenBy("word.votes++;", "word.votes = Math.max(word.votes, ballot.unlikeAnswers(part.word));")
-            .brokenBy("private int placeOfLetters", "letters[i] == answered", "false").brokenBy("private int placeOfLetters", "words[i] == word &&", "");
+        })
+            .brokenBy("int unlikeAnswers", "many = 0", "many = 1")
+            .brokenBy("case 3: return now.ballot.unlikeAnswers(word);", "now.ballot.unlikeAnswers(word)", "asked.votes")
+            .brokenBy("int unlikeAnswers", "words[i] == word", "words[i] >= word")
+            .brokenBy("word.votes++;", "word.votes = Math.max(word.votes, ballot.unlikeAnswers(part.word));")
+            .brokenBy("private int placeOfLetters", "letters[i] == answered", "false")
+            .brokenBy("private int placeOfLetters", "words[i] == word &&", "");
 
-        e.edge("4 the weight of its leading answer (0 without votes), 5 its lead (0 without votes), 6 the mean seconds of its votes (0 without)", d -> {
+        e.edge("4 the weight of its leading answer (0 without votes), 5 its lead (0 without votes), 6 the mean"
+            + " seconds of its votes (0 without)", d -> {
             d.oneOfEachKind();
             d.dueWord(0, 0, 0, 0, 0, 0, 0, 0);
             d.dueWord(1, 1, 9, 0, 0, 0, 0, 0);
@@ -52,8 +57,11 @@ final class EdgesOfLooks {
             d.dueWord(1, 1, 9, 2, 2, 50, 0, 30);
             d.x.bend(1, 9);
             d.dueWord(1, 1, 9, 0, 0, 0, 0, 0);
-        }).brokenBy("int leadingWeight", "NOWHERE ? 0", "NOWHERE ? NONE").brokenBy("int leadOf", "return 0;", "return NONE;")
-            .brokenBy("many == 0 ? 0 : sum / many", "many == 0 ? NONE : sum / many").brokenBy("many == 0 ? 0 : sum / many", "sum / many");
+        })
+            .brokenBy("int leadingWeight", "NOWHERE ? 0", "NOWHERE ? NONE")
+            .brokenBy("int leadOf", "return 0;", "return NONE;")
+            .brokenBy("many == 0 ? 0 : sum / many", "many == 0 ? NONE : sum / many")
+            .brokenBy("many == 0 ? 0 : sum / many", "sum / many");
 
         e.edge("7 how often it was missed", d -> {
             d.catAnd(9);
@@ -68,7 +76,9 @@ final class EdgesOfLooks {
                 }
                 d.right(i % 6, 1, "" + (char) ('a' + i), 9);
             }
-        }).brokenBy("told.missed++;", "told.missed = Math.min(11, told.missed + 1);").brokenBy("told.missed++;", "words[0].missed++;");
+        })
+            .brokenBy("told.missed++;", "told.missed = Math.min(11, told.missed + 1);")
+            .brokenBy("told.missed++;", "words[0].missed++;");
     }
 
     private static void wordLetters(Edges e) {
@@ -85,7 +95,9 @@ final class EdgesOfLooks {
             d.dueWord(4, 0, 0, 0, 0, 0, 0, 0, 0, 1, 'z', BentWords.NONE);
             d.know("abcdef", 0);
             d.dueWord(5, 0, 0, 0, 0, 0, 0, 0, 0, 6, 'a', 'b', 'c', 'd', 'e', 'f', BentWords.NONE);
-        }).brokenBy("private static int aboutLetters", "many == 0 ||", "what != 0 && many == 0 ||").brokenBy("what - 8", "what - 7")
+        })
+            .brokenBy("private static int aboutLetters", "many == 0 ||", "what != 0 && many == 0 ||")
+            .brokenBy("what - 8", "what - 7")
             .brokenBy("many < MOST_LETTERS && letters", "many < MOST_LETTERS &&", "many < MOST_LETTERS - 1 &&")
             .brokenBy("if (word.kind == SOLVED) {", "word.letters = ballot.leadingLetters(number); if (word.kind == SOLVED) {");
 
@@ -99,7 +111,9 @@ final class EdgesOfLooks {
             }
             d.due("word(2, 0)", d.x.word(2, 0), 1);
             d.due("word(0, 0)", d.x.word(0, 0), 0);
-        }).brokenBy("public int word(", "!now.hasWord(word)", "word < 0 || word > now.wordCount").brokenBy("public int word(", "!now.hasWord(word)", "word >= now.wordCount")
+        })
+            .brokenBy("public int word(", "!now.hasWord(word)", "word < 0 || word > now.wordCount")
+            .brokenBy("public int word(", "!now.hasWord(word)", "word >= now.wordCount")
             .brokenBy("public int word(", "NO_SUCH", "NONE");
 
         e.edge("BAD_VALUE if what is below 0", d -> {
@@ -109,7 +123,10 @@ final class EdgesOfLooks {
                 d.due("word(1, " + what + ")", d.x.word(1, what), BentWords.BAD_VALUE);
             }
             d.due("word(1, 0)", d.x.word(1, 0), 1);
-        }).brokenBy("public int word(", "what < 0", "what < -1").brokenBy("public int word(", "what < 0", "what <= 0").brokenBy("public int word(", "BAD_VALUE", "NONE");
+        })
+            .brokenBy("public int word(", "what < 0", "what < -1")
+            .brokenBy("public int word(", "what < 0", "what <= 0")
+            .brokenBy("public int word(", "BAD_VALUE", "NONE");
 
         e.edge("NONE if it has not so many letters", d -> {
             d.know("a", 0);
@@ -126,7 +143,10 @@ final class EdgesOfLooks {
             d.due("word(0, MAX)", d.x.word(0, Integer.MAX_VALUE), BentWords.NONE);
             d.due("word(1, MAX)", d.x.word(1, Integer.MAX_VALUE), BentWords.NONE);
             d.due("word(2, 9)", d.x.word(2, 9), BentWords.NONE);
-        }).brokenBy("what > many", "what > many + 1").brokenBy("what > many", "what >= many").brokenBy("what > many", "what > MOST_LETTERS");
+        })
+            .brokenBy("what > many", "what > many + 1")
+            .brokenBy("what > many", "what >= many")
+            .brokenBy("what > many", "what > MOST_LETTERS");
 
         e.edge("NO_SUCH if there is no such word; BAD_VALUE if what is below 0; NONE if it has not so many letters", d -> {
             d.due("word(0, -1) without words", d.x.word(0, -1), BentWords.NO_SUCH);
@@ -154,7 +174,9 @@ final class EdgesOfLooks {
                 d.due("vote(1, " + i + ", 4)", d.x.vote(1, i, 4), inOrder[i].charAt(0));
                 d.due("vote(2, " + i + ", 5)", d.x.vote(2, i, 5), inOrder[i].charAt(0));
             }
-        }).brokenBy("int placeOfAnswer", "before++;", "before = answer;").brokenBy("int placeOfAnswer", "words[i] == word", "words[i] >= word")
+        })
+            .brokenBy("int placeOfAnswer", "before++;", "before = answer;")
+            .brokenBy("int placeOfAnswer", "words[i] == word", "words[i] >= word")
             .brokenBy("private int placeOfLetters", "letters[i] == answered", "letters[i] == answered && i >= size - 4");
 
         e.edge("what: 0 its votes, how many, 1 its weight", d -> {
@@ -168,7 +190,10 @@ final class EdgesOfLooks {
                 d.dueVote(1, 0, votes, 0);
                 d.dueVote(1, 1, votes, 50 * votes);
             }
-        }).brokenBy("votes[place]++;", "votes[place] += weight > 0 ? 1 : 0;").brokenBy("votes[place]++;", "votes[place] = 1;").brokenBy("weights[place] += weight;", "weights[place] = weight;");
+        })
+            .brokenBy("votes[place]++;", "votes[place] += weight > 0 ? 1 : 0;")
+            .brokenBy("votes[place]++;", "votes[place] = 1;")
+            .brokenBy("weights[place] += weight;", "weights[place] = weight;");
 
         e.edge("2 its place by weight: how many answers have more weight, or as much and an earlier first vote", d -> {
             d.x.set(BentWords.UP, 0);
@@ -192,8 +217,11 @@ final class EdgesOfLooks {
             d.right(5, 1, "f", 9);
             d.due("vote(1, 0, 2) with as much as another one", d.x.vote(1, 0, 2), 0);
             d.due("vote(1, 3, 2) with as much as an earlier one", d.x.vote(1, 3, 2), 1);
-        }).brokenBy("weights[i] == weights[place] && i < place", "i < place", "i > place").brokenBy("weights[i] == weights[place] && i < place", "i < place", "false")
-            .brokenBy("int rankByWeight", "words[i] == words[place] && isAhead", "isAhead").brokenBy("weights[i] > weights[place] ||", "weights[i] > weights[place] ||", "weights[i] > weights[place] + 10 ||")
+        })
+            .brokenBy("weights[i] == weights[place] && i < place", "i < place", "i > place")
+            .brokenBy("weights[i] == weights[place] && i < place", "i < place", "false")
+            .brokenBy("int rankByWeight", "words[i] == words[place] && isAhead", "isAhead")
+            .brokenBy("weights[i] > weights[place] ||", "weights[i] > weights[place] ||", "weights[i] > weights[place] + 10 ||")
             .brokenBy("weights[i] > weights[place] ||", "weights[i] > weights[place] ||", "weights[i] < weights[place] ||");
 
         e.edge("3 how many letters it is, 4 and more the codes of these", d -> {
@@ -202,7 +230,10 @@ final class EdgesOfLooks {
             d.right(1, 1, "abcdef", 9);
             d.dueVote(1, 0, 1, 50, 0, 1, 'z', BentWords.NONE);
             d.dueVote(1, 1, 1, 50, 1, 6, 'a', 'b', 'c', 'd', 'e', 'f', BentWords.NONE);
-        }).brokenBy("what - 3", "what - 2").brokenBy("what - 3", "what - 4").brokenBy("many < MOST_LETTERS && letters", "many < MOST_LETTERS &&", "many < MOST_LETTERS - 1 &&")
+        })
+            .brokenBy("what - 3", "what - 2")
+            .brokenBy("what - 3", "what - 4")
+            .brokenBy("many < MOST_LETTERS && letters", "many < MOST_LETTERS &&", "many < MOST_LETTERS - 1 &&")
             .brokenBy("private static int lettersIn", "many = 0", "many = 2");
     }
 
@@ -222,8 +253,11 @@ final class EdgesOfLooks {
             d.due("vote(0, 0, 0) of a known one", d.x.vote(0, 0, 0), BentWords.NO_SUCH);
             d.due("vote(2, 0, 0) without votes", d.x.vote(2, 0, 0), BentWords.NO_SUCH);
             d.due("vote(1, 1, 0)", d.x.vote(1, 1, 0), 1);
-        }).brokenBy("public int vote(", "place == NOWHERE", "place == NOWHERE && answer >= 0").brokenBy("int placeOfAnswer", "before == answer", "before >= answer")
-            .brokenBy("int placeOfAnswer", "return NOWHERE;", "return size - 1;").brokenBy("public int vote(", "NO_SUCH", "BAD_VALUE");
+        })
+            .brokenBy("public int vote(", "place == NOWHERE", "place == NOWHERE && answer >= 0")
+            .brokenBy("int placeOfAnswer", "before == answer", "before >= answer")
+            .brokenBy("int placeOfAnswer", "return NOWHERE;", "return size - 1;")
+            .brokenBy("public int vote(", "NO_SUCH", "BAD_VALUE");
 
         e.edge("BAD_VALUE if what is below 0", d -> {
             d.catAnd(9);
@@ -232,7 +266,10 @@ final class EdgesOfLooks {
                 d.due("vote(1, 0, " + what + ")", d.x.vote(1, 0, what), BentWords.BAD_VALUE);
             }
             d.due("vote(1, 0, 0)", d.x.vote(1, 0, 0), 1);
-        }).brokenBy("public int vote(", "what < 0", "what < -1").brokenBy("public int vote(", "what < 0", "what <= 0").brokenBy("public int vote(", "BAD_VALUE", "NONE");
+        })
+            .brokenBy("public int vote(", "what < 0", "what < -1")
+            .brokenBy("public int vote(", "what < 0", "what <= 0")
+            .brokenBy("public int vote(", "BAD_VALUE", "NONE");
 
         e.edge("NONE if it has not so many letters", d -> {
             d.catAnd(9);
@@ -246,9 +283,13 @@ final class EdgesOfLooks {
             d.due("vote(1, 0, 4)", d.x.vote(1, 0, 4), 'a');
             d.due("vote(1, 1, 9)", d.x.vote(1, 1, 9), 'f');
             d.due("vote(1, 0, MAX)", d.x.vote(1, 0, Integer.MAX_VALUE), BentWords.NONE);
-        }).brokenBy("what > many", "what > many + 1").brokenBy("what > many", "what >= many").brokenBy("what > many", "what > MOST_LETTERS");
+        })
+            .brokenBy("what > many", "what > many + 1")
+            .brokenBy("what > many", "what >= many")
+            .brokenBy("what > many", "what > MOST_LETTERS");
 
-        e.edge("NO_SUCH if there is no such word or answer; BAD_VALUE if what is below 0; NONE if it has not so many letters", d -> {
+        e.edge("NO_SUCH if there is no such word or answer; BAD_VALUE if what is below 0; NONE if it has not so many"
+            + " letters", d -> {
             d.due("vote(0, 0, -1) without words", d.x.vote(0, 0, -1), BentWords.NO_SUCH);
             d.catAnd(9);
             d.due("vote(1, 0, -1) without votes", d.x.vote(1, 0, -1), BentWords.NO_SUCH);
@@ -272,8 +313,11 @@ final class EdgesOfLooks {
             d.x.drop(1);
             d.dueSolver(4, 50, 3, 2);
             d.dueSolver(3, 50, 0, 0);
-        }).brokenBy("solver.answers++;", "if (told.letters == said.told.letters) { solver.answers++; }").brokenBy("solver.right++;", "solver.right = solver.answers;")
-            .brokenBy("solver.right++;", "").brokenBy("} else {\n                solver.trust", "} else {", "} else { solver.right++;");
+        })
+            .brokenBy("solver.answers++;", "if (told.letters == said.told.letters) { solver.answers++; }")
+            .brokenBy("solver.right++;", "solver.right = solver.answers;")
+            .brokenBy("solver.right++;", "")
+            .brokenBy("} else {\n                solver.trust", "} else {", "} else { solver.right++;");
 
         e.edge("3 its place by trust: how many solvers have more, or as much and a lower number", d -> {
             int[][] rows = {{50, 50, 50, 50, 50, 50}, {0, 100, 0, 100, 0, 100}, {1, 2, 3, 4, 5, 6}, {6, 5, 4, 3, 2, 1}, {7, 7, 8, 8, 7, 6}};
@@ -286,8 +330,11 @@ final class EdgesOfLooks {
                     d.due("solver(" + solver + ", 3) of row " + row, d.x.solver(solver, 3), places[row][solver]);
                 }
             }
-        }).brokenBy("more == 0 && i < solver", "i < solver", "i <= solver").brokenBy("more == 0 && i < solver", "i < solver", "i > solver")
-            .brokenBy("more > 0 || more == 0", "more > 0", "more > 1").brokenBy("more > 0 || more == 0", "more > 0", "more < 0");
+        })
+            .brokenBy("more == 0 && i < solver", "i < solver", "i <= solver")
+            .brokenBy("more == 0 && i < solver", "i < solver", "i > solver")
+            .brokenBy("more > 0 || more == 0", "more > 0", "more > 1")
+            .brokenBy("more > 0 || more == 0", "more > 0", "more < 0");
 
         e.edge("4 the mean seconds of all its answers so far (0 without)", d -> {
             d.catAnd(9);
@@ -299,8 +346,11 @@ final class EdgesOfLooks {
             d.wrong(2, 1, "a", 1);
             d.due("solver(2, 4) of 60, 11 and 1", d.x.solver(2, 4), 24);
             d.due("solver(1, 4)", d.x.solver(1, 4), 0);
-        }).brokenBy("many == 0 ? 0 : sum / many", "many == 0 ? NONE : sum / many").brokenBy("mean(asked.seconds, asked.answers)", "asked.answers", "asked.right")
-            .brokenBy("solver.seconds += said.seconds;", "if (told.letters == said.told.letters) { solver.seconds += said.seconds; }");
+        })
+            .brokenBy("many == 0 ? 0 : sum / many", "many == 0 ? NONE : sum / many")
+            .brokenBy("mean(asked.seconds, asked.answers)", "asked.answers", "asked.right")
+            .brokenBy("solver.seconds += said.seconds;",
+                "if (told.letters == said.told.letters) { solver.seconds += said.seconds; }");
 
         e.edge("NO_SUCH if there is no such solver", d -> {
             int[] solvers = {-1, 6, Integer.MIN_VALUE, Integer.MAX_VALUE};
@@ -311,8 +361,11 @@ final class EdgesOfLooks {
             }
             d.due("solver(0, 0)", d.x.solver(0, 0), 50);
             d.due("solver(5, 0)", d.x.solver(5, 0), 50);
-        }).brokenBy("public int solver(", "!isSolver(solver)", "solver < 0").brokenBy("public int solver(", "!isSolver(solver)", "solver >= SOLVERS")
-            .brokenBy("public int solver(", "!isSolver(solver)", "!isWithin(solver, 0, SOLVERS)").brokenBy("public int solver(", "NO_SUCH", "BAD_VALUE");
+        })
+            .brokenBy("public int solver(", "!isSolver(solver)", "solver < 0")
+            .brokenBy("public int solver(", "!isSolver(solver)", "solver >= SOLVERS")
+            .brokenBy("public int solver(", "!isSolver(solver)", "!isWithin(solver, 0, SOLVERS)")
+            .brokenBy("public int solver(", "NO_SUCH", "BAD_VALUE");
 
         e.edge("BAD_VALUE if what is out of range", d -> {
             int[] whats = {-1, 5, 6, Integer.MIN_VALUE, Integer.MAX_VALUE};
@@ -321,7 +374,9 @@ final class EdgesOfLooks {
             }
             d.due("solver(1, 4)", d.x.solver(1, 4), 0);
             d.due("solver(1, 0)", d.x.solver(1, 0), 50);
-        }).brokenBy("public int solver(", "default: return BAD_VALUE", "default: return NONE").brokenBy("case 4: return mean(asked.seconds, asked.answers);", "case 4:", "case 5: case 4:")
+        })
+            .brokenBy("public int solver(", "default: return BAD_VALUE", "default: return NONE")
+            .brokenBy("case 4: return mean(asked.seconds, asked.answers);", "case 4:", "case 5: case 4:")
             .brokenBy("public int solver(", "case 0:", "case -1: case 0:");
 
         e.edge("NO_SUCH if there is no such solver; BAD_VALUE if what is out of range", d -> {
@@ -354,9 +409,13 @@ final class EdgesOfLooks {
             }
             d.dueCount(6, 12);
             d.dueCount(8, 12);
-        }).brokenBy("int wordsOfKind", "i < wordCount", "i < wordCount - 1").brokenBy("int wordsOfKind", "i < wordCount", "i < MOST_WORDS")
-            .brokenBy("isWithin(what, 7, 7 + KINDS - 1)", "7 + KINDS - 1", "7 + KINDS - 2").brokenBy("isWithin(what, 7, 7 + KINDS - 1)", "(what, 7,", "(what, 8,")
-            .brokenBy("isWithin(what, 0, SETTINGS - 1)", "SETTINGS - 1", "SETTINGS - 2").brokenBy("isWithin(what, 0, SETTINGS - 1)", "0", "1");
+        })
+            .brokenBy("int wordsOfKind", "i < wordCount", "i < wordCount - 1")
+            .brokenBy("int wordsOfKind", "i < wordCount", "i < MOST_WORDS")
+            .brokenBy("isWithin(what, 7, 7 + KINDS - 1)", "7 + KINDS - 1", "7 + KINDS - 2")
+            .brokenBy("isWithin(what, 7, 7 + KINDS - 1)", "(what, 7,", "(what, 8,")
+            .brokenBy("isWithin(what, 0, SETTINGS - 1)", "SETTINGS - 1", "SETTINGS - 2")
+            .brokenBy("isWithin(what, 0, SETTINGS - 1)", "0", "1");
 
         e.edge("15 trust of all solvers, 16 the length of the pad, 17 how many changes can be undone", d -> {
             d.dueCount(15, 300);
@@ -374,8 +433,11 @@ final class EdgesOfLooks {
             d.dueCount(15, 600);
             d.pad("123456781234567812345678123456781234567812345678123456781234");
             d.dueCount(16, 60);
-        }).brokenBy("int allTrust", "all = 0", "all = 1").brokenBy("int allTrust", "i < SOLVERS", "i < SOLVERS - 1")
-            .brokenBy("case 16: return pad.length;", "pad.length", "Math.min(pad.length, 59)").brokenBy("case 17: return changes;", "changes", "Math.min(changes, 5)");
+        })
+            .brokenBy("int allTrust", "all = 0", "all = 1")
+            .brokenBy("int allTrust", "i < SOLVERS", "i < SOLVERS - 1")
+            .brokenBy("case 16: return pad.length;", "pad.length", "Math.min(pad.length, 59)")
+            .brokenBy("case 17: return changes;", "changes", "Math.min(changes, 5)");
 
         e.edge("BAD_VALUE if what is out of range", d -> {
             int[] whats = {-1, 18, 19, Integer.MIN_VALUE, Integer.MAX_VALUE};
@@ -384,12 +446,16 @@ final class EdgesOfLooks {
             }
             d.dueCount(0, 100);
             d.dueCount(17, 0);
-        }).brokenBy("case 17: return changes;", "case 17:", "case 18: case 17:").brokenBy("isWithin(what, 0, SETTINGS - 1)", "0", "-1")
-            .brokenBy("public int count(", "default: return BAD_VALUE", "default: return NO_SUCH").brokenBy("case 17: return changes;", "case 17:", "case 19:");
+        })
+            .brokenBy("case 17: return changes;", "case 17:", "case 18: case 17:")
+            .brokenBy("isWithin(what, 0, SETTINGS - 1)", "0", "-1")
+            .brokenBy("public int count(", "default: return BAD_VALUE", "default: return NO_SUCH")
+            .brokenBy("case 17: return changes;", "case 17:", "case 19:");
     }
 
     private static void countSoFar(Edges e) {
-        e.edge("11 answers so far, 12 right ones so far, 13 words that were retired so far, 14 words that were solved so far", d -> {
+        e.edge("11 answers so far, 12 right ones so far, 13 words that were retired so far, 14 words that were solved"
+            + " so far", d -> {
             for (int what = 11; what < 15; what++) {
                 d.dueCount(what, 0);
             }
@@ -419,9 +485,14 @@ final class EdgesOfLooks {
             d.x.undo();
             d.dueCount(14, 2);
             d.dueCount(13, 1);
-        }).brokenBy("int allAnswers", "i < SOLVERS", "i < SOLVERS - 1").brokenBy("int allAnswers", "i = 0", "i = 1").brokenBy("int allRight", "i < SOLVERS", "i < SOLVERS - 1")
-            .brokenBy("int allRight", "i = 0", "i = 1").brokenBy("case 13: return now.retiredSoFar;", "now.retiredSoFar", "now.wordsOfKind(RETIRED)")
-            .brokenBy("case 14: return now.solvedSoFar;", "now.solvedSoFar", "now.wordsOfKind(SOLVED)").brokenBy("int allRight", "solvers[i].right", "solvers[i].answers")
+        })
+            .brokenBy("int allAnswers", "i < SOLVERS", "i < SOLVERS - 1")
+            .brokenBy("int allAnswers", "i = 0", "i = 1")
+            .brokenBy("int allRight", "i < SOLVERS", "i < SOLVERS - 1")
+            .brokenBy("int allRight", "i = 0", "i = 1")
+            .brokenBy("case 13: return now.retiredSoFar;", "now.retiredSoFar", "now.wordsOfKind(RETIRED)")
+            .brokenBy("case 14: return now.solvedSoFar;", "now.solvedSoFar", "now.wordsOfKind(SOLVED)")
+            .brokenBy("int allRight", "solvers[i].right", "solvers[i].answers")
             .brokenBy("solvedSoFar = other.solvedSoFar;", "");
     }
 }

@@ -63,6 +63,8 @@ final class EdgesOfSaving {
                 }
                 d.answer("1:2=cow+1=a@9");
                 d.x.bend(1, 9);
+                d.x.trust(3, 10);
+                d.right(3, 1, "a", 9);
                 d.x.wipe();
                 String before = d.everything();
                 change.accept(d);
@@ -72,10 +74,21 @@ final class EdgesOfSaving {
                 String behind = d.everything().replaceFirst("^((\\S+ ){17})5 ", "$16 ");
                 d.due("everything is as it was", behind.compareTo(before), 0);
             }
-        }).brokenBy("now.copyFrom(history[changes]);", "").brokenBy("retiredSoFar = other.retiredSoFar;", "retiredSoFar = Math.max(retiredSoFar, other.retiredSoFar);")
-            .brokenBy("missed = other.missed;", "").brokenBy("trust = other.trust;", "").brokenBy("answers = other.answers;", "").brokenBy("right = other.right;", "")
-            .brokenBy("kind = other.kind;", "").brokenBy("bend = other.bend;", "").brokenBy("letters = other.letters;", "").brokenBy("wordCount = other.wordCount;", "")
-            .brokenBy("System.arraycopy(other.settings, 0, settings, 0, SETTINGS);", "").brokenBy("ballot.copyFrom(other.ballot);", "");
+        })
+            .brokenBy("now.copyFrom(history[changes]);", "")
+            .brokenBy("retiredSoFar = other.retiredSoFar;", "retiredSoFar = Math.max(retiredSoFar, other.retiredSoFar);")
+            .brokenBy("missed = other.missed;", "")
+            .brokenBy("trust = other.trust;", "")
+            .brokenBy("answers = other.answers;", "")
+            .brokenBy("right = other.right;", "")
+            .brokenBy("kind = other.kind;", "")
+            .brokenBy("bend = other.bend;", "")
+            .brokenBy("letters = other.letters;", "")
+            .brokenBy("wordCount = other.wordCount;", "")
+            .brokenBy("System.arraycopy(other.settings, 0, settings, 0, SETTINGS);", "")
+            .brokenBy("ballot.copyFrom(other.ballot);", "")
+            .brokenBy("System.arraycopy(other.votes, 0, votes, 0, size);", "")
+            .brokenBy("System.arraycopy(other.weights, 0, weights, 0, size);", "");
 
         e.edge("everything except the pad, the slots and the history is as it was before it", d -> {
             d.know("cat", 0);
@@ -98,7 +111,9 @@ final class EdgesOfSaving {
             d.due("restore(1) behind undo", d.x.restore(1), 2);
             d.due("undo()", d.x.undo(), 1);
             d.dueCount(6, 1);
-        }).brokenBy("public int undo", "changes--;", "changes--; pad.length = 0;").brokenBy("public int undo", "changes--;", "changes--; saved[1] = false;")
+        })
+            .brokenBy("public int undo", "changes--;", "changes--; pad.length = 0;")
+            .brokenBy("public int undo", "changes--;", "changes--; saved[1] = false;")
             .brokenBy("public int undo", "return changes;", "changes = Math.max(changes - 1, 0); return changes;")
             .brokenBy("slots[slot].copyFrom(now);", "slots[slot].copyFrom(now); if (slot == 0) { slots[0] = now; }");
 
@@ -111,7 +126,9 @@ final class EdgesOfSaving {
                 d.dueCount(17, i);
                 d.dueCount(6, 3 + i);
             }
-        }).brokenBy("public int undo", "return changes;", "return changes + 1;").brokenBy("public int undo", "return changes;", "return changes == 0 ? NONE : changes;");
+        })
+            .brokenBy("public int undo", "return changes;", "return changes + 1;")
+            .brokenBy("public int undo", "return changes;", "return changes == 0 ? NONE : changes;");
 
         e.edge("NOT_POSSIBLE if there is none", d -> {
             d.due("undo() at first", d.x.undo(), BentWords.NOT_POSSIBLE);
@@ -127,7 +144,9 @@ final class EdgesOfSaving {
             }
             d.due("a seventh undo()", d.x.undo(), BentWords.NOT_POSSIBLE);
             d.dueCount(6, 1);
-        }).brokenBy("public int undo", "changes == 0", "changes < 0").brokenBy("public int undo", "NOT_POSSIBLE", "NONE");
+        })
+            .brokenBy("public int undo", "changes == 0", "changes < 0")
+            .brokenBy("public int undo", "NOT_POSSIBLE", "NONE");
     }
 
     private static void history(Edges e) {
@@ -141,7 +160,9 @@ final class EdgesOfSaving {
                 d.dueCount(0, 29 - i);
             }
             d.due("a seventh undo()", d.x.undo(), BentWords.NOT_POSSIBLE);
-        }).brokenBy("MOST_CHANGES = 6", "6", "5").brokenBy("MOST_CHANGES = 6", "6", "7");
+        })
+            .brokenBy("MOST_CHANGES = 6", "6", "5")
+            .brokenBy("MOST_CHANGES = 6", "6", "7");
 
         e.edge("each method that is a change, and returns no error, records the state before it", d -> {
             for (Consumer<Due> change : changes()) {
@@ -151,10 +172,17 @@ final class EdgesOfSaving {
                 d.dueCount(17, 2);
                 d.due("undo()", d.x.undo(), 1);
             }
-        }).brokenBy("public int set", "remember();", "").brokenBy("public int know", "remember();", "").brokenBy("public int add", "remember();", "")
-            .brokenBy("public int answer()", "remember();", "").brokenBy("public int bend", "remember();", "").brokenBy("public int drop", "remember();", "")
-            .brokenBy("public int trust", "remember();", "").brokenBy("public int restore", "remember();", "")
-            .brokenBy("public int answer()", "remember();", "if (now.words[reading.told.word].letters == reading.told.letters) { remember(); }");
+        })
+            .brokenBy("public int set", "remember();", "")
+            .brokenBy("public int know", "remember();", "")
+            .brokenBy("public int add", "remember();", "")
+            .brokenBy("public int answer()", "remember();", "")
+            .brokenBy("public int bend", "remember();", "")
+            .brokenBy("public int drop", "remember();", "")
+            .brokenBy("public int trust", "remember();", "")
+            .brokenBy("public int restore", "remember();", "")
+            .brokenBy("public int answer()", "remember();",
+                "if (now.words[reading.told.word].letters == reading.told.letters) { remember(); }");
 
         e.edge("each method that is a change, and returns no error, records the state before it", d -> {
             kindsAndOneChange(d);
@@ -178,9 +206,13 @@ final class EdgesOfSaving {
             d.dueCount(17, 1);
             d.due("undo()", d.x.undo(), 0);
             d.due("undo() once more", d.x.undo(), BentWords.NOT_POSSIBLE);
-        }).brokenBy("public int save", "saved[slot] = true;", "saved[slot] = true; remember();").brokenBy("public int wipe", "pad.length = 0;", "pad.length = 0; remember();")
-            .brokenBy("public int put", "return pad.length;", "remember(); return pad.length;").brokenBy("public int undo", "return changes;", "int left = changes; changes = 1; return left;")
-            .brokenBy("public int drop", "return NO_SUCH;", "remember(); return NO_SUCH;").brokenBy("public int lacking(", "return now.weight", "remember(); return now.weight");
+        })
+            .brokenBy("public int save", "saved[slot] = true;", "saved[slot] = true; remember();")
+            .brokenBy("public int wipe", "pad.length = 0;", "pad.length = 0; remember();")
+            .brokenBy("public int put", "return pad.length;", "remember(); return pad.length;")
+            .brokenBy("public int undo", "return changes;", "int left = changes; changes = 1; return left;")
+            .brokenBy("public int drop", "return NO_SUCH;", "remember(); return NO_SUCH;")
+            .brokenBy("public int lacking(", "return now.weight", "remember(); return now.weight");
 
         e.edge("(also if nothing is different then)", d -> {
             d.due("set(0, 100)", d.x.set(0, 100), 100);
@@ -198,8 +230,11 @@ final class EdgesOfSaving {
             d.dueCount(6, 1);
             d.due("undo()", d.x.undo(), 2);
             d.dueCount(6, 0);
-        }).brokenBy("public int set", "remember();", "if (now.settings[setting] != value) { remember(); }").brokenBy("public int trust", "remember();", "if (now.solvers[solver].trust != trust) { remember(); }")
-            .brokenBy("public int bend", "remember();", "if (now.words[word].votes > 0) { remember(); }").brokenBy("public int restore", "remember();", "if (now.wordCount != slots[slot].wordCount) { remember(); }");
+        })
+            .brokenBy("public int set", "remember();", "if (now.settings[setting] != value) { remember(); }")
+            .brokenBy("public int trust", "remember();", "if (now.solvers[solver].trust != trust) { remember(); }")
+            .brokenBy("public int bend", "remember();", "if (now.words[word].votes > 0) { remember(); }")
+            .brokenBy("public int restore", "remember();", "if (now.wordCount != slots[slot].wordCount) { remember(); }");
 
         e.edge("when one more is recorded, the oldest one is dropped", d -> {
             for (int i = 0; i < 7; i++) {
@@ -220,7 +255,10 @@ final class EdgesOfSaving {
                 d.dueCount(6, i);
             }
             d.due("undo()", d.x.undo(), BentWords.NOT_POSSIBLE);
-        }).brokenBy("history[MOST_CHANGES - 1] = oldest;", "").brokenBy("private void remember", "int i = 1;", "int i = 2;").brokenBy("private void remember", "changes == MOST_CHANGES", "changes == MOST_CHANGES - 1");
+        })
+            .brokenBy("history[MOST_CHANGES - 1] = oldest;", "")
+            .brokenBy("private void remember", "int i = 1;", "int i = 2;")
+            .brokenBy("private void remember", "changes == MOST_CHANGES", "changes == MOST_CHANGES - 1");
     }
 
     private static void save(Edges e) {
@@ -251,8 +289,11 @@ final class EdgesOfSaving {
             d.due("restore(0)", d.x.restore(0), 3);
             d.dueCount(16, 5);
             d.due("restore(1)", d.x.restore(1), BentWords.NOT_POSSIBLE);
-        }).brokenBy("slots[slot].copyFrom(now);", "if (!saved[slot]) { slots[slot].copyFrom(now); }").brokenBy("public int restore", "remember();", "remember(); pad.length = 0;")
-            .brokenBy("slots[slot].copyFrom(now);", "slots[slot].copyFrom(now); pad.length = 0;").brokenBy("slots[slot].copyFrom(now);", "slots[slot].copyFrom(now); changes = 0;")
+        })
+            .brokenBy("slots[slot].copyFrom(now);", "if (!saved[slot]) { slots[slot].copyFrom(now); }")
+            .brokenBy("public int restore", "remember();", "remember(); pad.length = 0;")
+            .brokenBy("slots[slot].copyFrom(now);", "slots[slot].copyFrom(now); pad.length = 0;")
+            .brokenBy("slots[slot].copyFrom(now);", "slots[slot].copyFrom(now); changes = 0;")
             .brokenBy("slots[slot].copyFrom(now);", "slots[slot].copyFrom(now); saved[1] = true;");
 
         e.edge("slot: 0 or 1", d -> {
@@ -264,7 +305,9 @@ final class EdgesOfSaving {
             d.due("restore(0)", d.x.restore(0), 1);
             d.due("restore(1)", d.x.restore(1), 2);
             d.dueCount(6, 2);
-        }).brokenBy("public int save", "isWithin(slot, 0, SLOTS - 1)", "isWithin(slot, 1, SLOTS - 1)").brokenBy("public int save", "isWithin(slot, 0, SLOTS - 1)", "isWithin(slot, 0, SLOTS - 2)")
+        })
+            .brokenBy("public int save", "isWithin(slot, 0, SLOTS - 1)", "isWithin(slot, 1, SLOTS - 1)")
+            .brokenBy("public int save", "isWithin(slot, 0, SLOTS - 1)", "isWithin(slot, 0, SLOTS - 2)")
             .brokenBy("slots[slot].copyFrom(now);", "slots[0].copyFrom(now);");
 
         e.edge("Returns how many words there are", d -> {
@@ -272,7 +315,9 @@ final class EdgesOfSaving {
                 d.due("save(" + i % 2 + ")", d.x.save(i % 2), i);
                 d.x.add(0);
             }
-        }).brokenBy("public int save", "return now.wordCount;", "return Math.max(1, now.wordCount);").brokenBy("public int save", "return now.wordCount;", "return Math.min(11, now.wordCount);");
+        })
+            .brokenBy("public int save", "return now.wordCount;", "return Math.max(1, now.wordCount);")
+            .brokenBy("public int save", "return now.wordCount;", "return Math.min(11, now.wordCount);");
 
         e.edge("BAD_VALUE if there is no such slot", d -> {
             int[] slots = {-1, 2, Integer.MIN_VALUE, Integer.MAX_VALUE};
@@ -281,8 +326,11 @@ final class EdgesOfSaving {
             }
             d.due("restore(0)", d.x.restore(0), BentWords.NOT_POSSIBLE);
             d.due("restore(1)", d.x.restore(1), BentWords.NOT_POSSIBLE);
-        }).brokenBy("public int save", "!isWithin(slot, 0, SLOTS - 1)", "slot < 0").brokenBy("public int save", "!isWithin(slot, 0, SLOTS - 1)", "slot >= SLOTS")
-            .brokenBy("public int save", "isWithin(slot, 0, SLOTS - 1)", "isWithin(slot, 0, SLOTS)").brokenBy("public int save", "BAD_VALUE", "NO_SUCH");
+        })
+            .brokenBy("public int save", "!isWithin(slot, 0, SLOTS - 1)", "slot < 0")
+            .brokenBy("public int save", "!isWithin(slot, 0, SLOTS - 1)", "slot >= SLOTS")
+            .brokenBy("public int save", "isWithin(slot, 0, SLOTS - 1)", "isWithin(slot, 0, SLOTS)")
+            .brokenBy("public int save", "BAD_VALUE", "NO_SUCH");
     }
 
     private static void restore(Edges e) {
@@ -306,8 +354,11 @@ final class EdgesOfSaving {
             d.dueWord(1, 1, 0, 0);
             d.due("restore(1) behind undo", d.x.restore(1), 2);
             d.dueWord(1, 1, 9, 1, 1, 50, 50, 9);
-        }).brokenBy("public int restore", "return now.wordCount;", "saved[slot] = false; return now.wordCount;").brokenBy("slots[slot].copyFrom(now);", "if (!saved[slot]) { slots[slot].copyFrom(now); }")
-            .brokenBy("public int restore", "remember();", "remember(); State last = slots[slot]; slots[slot] = history[changes - 1]; history[changes - 1] = last;");
+        })
+            .brokenBy("public int restore", "return now.wordCount;", "saved[slot] = false; return now.wordCount;")
+            .brokenBy("slots[slot].copyFrom(now);", "if (!saved[slot]) { slots[slot].copyFrom(now); }")
+            .brokenBy("public int restore", "remember();",
+                "remember(); State last = slots[slot]; slots[slot] = history[changes - 1]; history[changes - 1] = last;");
 
         e.edge("This is a change", d -> {
             d.x.save(0);
@@ -327,7 +378,9 @@ final class EdgesOfSaving {
             d.x.save(1);
             d.due("restore(0)", d.x.restore(0), 0);
             d.due("restore(1)", d.x.restore(1), 1);
-        }).brokenBy("public int restore", "isWithin(slot, 0, SLOTS - 1)", "isWithin(slot, 1, SLOTS - 1)").brokenBy("public int restore", "isWithin(slot, 0, SLOTS - 1)", "isWithin(slot, 0, SLOTS - 2)");
+        })
+            .brokenBy("public int restore", "isWithin(slot, 0, SLOTS - 1)", "isWithin(slot, 1, SLOTS - 1)")
+            .brokenBy("public int restore", "isWithin(slot, 0, SLOTS - 1)", "isWithin(slot, 0, SLOTS - 2)");
 
         e.edge("Returns how many words there are then", d -> {
             d.x.save(0);
@@ -337,7 +390,9 @@ final class EdgesOfSaving {
             d.x.save(1);
             d.due("restore(0)", d.x.restore(0), 0);
             d.due("restore(1)", d.x.restore(1), 12);
-        }).brokenBy("public int restore", "return now.wordCount;", "return history[changes - 1].wordCount;").brokenBy("public int restore", "return now.wordCount;", "return changes;");
+        })
+            .brokenBy("public int restore", "return now.wordCount;", "return history[changes - 1].wordCount;")
+            .brokenBy("public int restore", "return now.wordCount;", "return changes;");
 
         e.edge("BAD_VALUE if there is no such slot; NOT_POSSIBLE if nothing was saved in it", d -> {
             int[] slots = {-1, 2, Integer.MIN_VALUE, Integer.MAX_VALUE};
@@ -352,7 +407,11 @@ final class EdgesOfSaving {
             d.due("restore(2)", d.x.restore(2), BentWords.BAD_VALUE);
             d.x.save(0);
             d.due("restore(0)", d.x.restore(0), 1);
-        }).brokenBy("public int restore", "!isWithin(slot, 0, SLOTS - 1)", "slot < 0").brokenBy("public int restore", "!isWithin(slot, 0, SLOTS - 1)", "slot >= SLOTS")
-            .brokenBy("public int restore", "!saved[slot]", "!saved[0] && !saved[1]").brokenBy("public int restore", "!saved[slot]", "false").brokenBy("public int restore", "BAD_VALUE", "NO_SUCH");
+        })
+            .brokenBy("public int restore", "!isWithin(slot, 0, SLOTS - 1)", "slot < 0")
+            .brokenBy("public int restore", "!isWithin(slot, 0, SLOTS - 1)", "slot >= SLOTS")
+            .brokenBy("public int restore", "!saved[slot]", "!saved[0] && !saved[1]")
+            .brokenBy("public int restore", "!saved[slot]", "false")
+            .brokenBy("public int restore", "BAD_VALUE", "NO_SUCH");
     }
 }

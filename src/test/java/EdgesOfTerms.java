@@ -66,8 +66,12 @@ final class EdgesOfTerms {
             d.due("undo()", d.x.undo(), -5);
             d.catAnd(new int[11]);
             d.due("add(0)", d.x.add(0), -4);
-        }).brokenBy("NO_SUCH = -1", "-1", "-7").brokenBy("BAD_VALUE = -2", "-2", "-7").brokenBy("BAD_TEXT = -3", "-3", "-7")
-            .brokenBy("TOO_MANY = -4", "-4", "-7").brokenBy("NOT_POSSIBLE = -5", "-5", "-7");
+        })
+            .brokenBy("NO_SUCH = -1", "-1", "-7")
+            .brokenBy("BAD_VALUE = -2", "-2", "-7")
+            .brokenBy("BAD_TEXT = -3", "-3", "-7")
+            .brokenBy("TOO_MANY = -4", "-4", "-7")
+            .brokenBy("NOT_POSSIBLE = -5", "-5", "-7");
 
         e.edge("it names its errors in the order in which they are checked, and the first one that applies is returned", d -> {
             d.due("restore(2) with nothing saved", d.x.restore(2), BentWords.BAD_VALUE);
@@ -176,7 +180,9 @@ final class EdgesOfTerms {
             refused(x, "restore(0)", x.x.restore(0));
             refused(x, "know(0)", x.x.know(0));
             refused(x, "answer()", x.x.answer());
-        })).brokenBy("public int undo", "return NOT_POSSIBLE;", "now.copyFrom(history[0]); now.settings[UP]++; return NOT_POSSIBLE;")
+        }))
+            .brokenBy("public int undo", "return NOT_POSSIBLE;",
+                "now.copyFrom(history[0]); now.settings[UP]++; return NOT_POSSIBLE;")
             .brokenBy("public int know", "return BAD_TEXT;", "remember(); return BAD_TEXT;");
     }
 
@@ -258,7 +264,9 @@ final class EdgesOfTerms {
             d.right(0, 1, "e", 3);
             d.due("word(1, 6) of 10 by 5", d.x.word(1, 6), 2);
             d.due("solver(0, 4) of 10 by 5", d.x.solver(0, 4), 2);
-        }).brokenBy("sum / many", "(sum + many / 2) / many").brokenBy("sum / many", "(sum + many - 1) / many")
+        })
+            .brokenBy("sum / many", "(sum + many / 2) / many")
+            .brokenBy("sum / many", "(sum + many - 1) / many")
             .brokenBy("sum / many", "(sum - 1) / many");
     }
 
@@ -307,7 +315,9 @@ final class EdgesOfTerms {
             d.dueCount(6, 12);
             d.due("word(11, 1)", d.x.word(11, 1), 1);
             d.due("word(12, 1)", d.x.word(12, 1), BentWords.NO_SUCH);
-        }).brokenBy("MOST_WORDS = 12", "12", "11").brokenBy("MOST_WORDS = 12", "12", "13");
+        })
+            .brokenBy("MOST_WORDS = 12", "12", "11")
+            .brokenBy("MOST_WORDS = 12", "12", "13");
 
         e.edge("numbered in the order in which they came", d -> {
             for (int i = 0; i < 12; i++) {
@@ -325,7 +335,9 @@ final class EdgesOfTerms {
             d.due("add(-1)", d.x.add(-1), BentWords.BAD_VALUE);
             d.due("word(0, 1)", d.x.word(0, 1), 0);
             d.due("word(1, 1)", d.x.word(1, 1), 9);
-        }).brokenBy("MOST_BEND = 9", "9", "8").brokenBy("MOST_BEND = 9", "9", "10");
+        })
+            .brokenBy("MOST_BEND = 9", "9", "8")
+            .brokenBy("MOST_BEND = 9", "9", "10");
 
         e.edge("a kind: 0 known, with what it is told; 1 unknown; 2 solved, with what it was agreed on; 3 retired", d -> {
             d.oneOfEachKind();
@@ -356,9 +368,13 @@ final class EdgesOfTerms {
                 d.due("the known one answered " + letters, d.answer("0:0=" + letters + "+1=a@9"), BentWords.BAD_TEXT);
                 d.due("the unknown one answered " + letters, d.answer("0:0=cat+1=" + letters + "@9"), BentWords.BAD_TEXT);
             }
-        }).brokenBy("MOST_LETTERS = 6", "6", "5").brokenBy("MOST_LETTERS = 6", "6", "7")
-            .brokenBy("letter < 'a'", "letter < '`'").brokenBy("letter < 'a'", "letter <= 'a'")
-            .brokenBy("letter > 'z'", "letter > '{'").brokenBy("letter > 'z'", "letter >= 'z'")
+        })
+            .brokenBy("MOST_LETTERS = 6", "6", "5")
+            .brokenBy("MOST_LETTERS = 6", "6", "7")
+            .brokenBy("letter < 'a'", "letter < '`'")
+            .brokenBy("letter < 'a'", "letter <= 'a'")
+            .brokenBy("letter > 'z'", "letter > '{'")
+            .brokenBy("letter > 'z'", "letter >= 'z'")
             .brokenBy("return part.letters != 0;", "return true;")
             .brokenBy("if (letters == 0) {", "if (letters == 0 && pad.length > 0) {");
     }
@@ -427,8 +443,11 @@ final class EdgesOfTerms {
             d.x.trust(1, 40);
             d.right(1, 1, "c", 9);
             d.due("word(1, 5) with others of 20 and 50", d.x.word(1, 5), 0);
-        }).brokenBy("int mostOfOthers = 0;", "0", "1").brokenBy("Math.max(mostOfOthers, weights[i])", "mostOfOthers + weights[i]")
-            .brokenBy("Math.max(mostOfOthers, weights[i])", "weights[i]").brokenBy("words[i] == word && i != leading", "i != leading")
+        })
+            .brokenBy("int mostOfOthers = 0;", "0", "1")
+            .brokenBy("Math.max(mostOfOthers, weights[i])", "mostOfOthers + weights[i]")
+            .brokenBy("Math.max(mostOfOthers, weights[i])", "weights[i]")
+            .brokenBy("words[i] == word && i != leading", "i != leading")
             .brokenBy("words[i] == word && i != leading", "words[i] == word");
     }
 
@@ -444,7 +463,10 @@ final class EdgesOfTerms {
             d.catAnd(9);
             d.due("an answer of 5", d.right(5, 1, "a", 9), 1);
             d.due("an answer of 6", d.right(6, 1, "a", 9), BentWords.BAD_TEXT);
-        }).brokenBy("SOLVERS = 6", "6", "5").brokenBy("SOLVERS = 6", "6", "7").brokenBy("isWithin(solver, 0, SOLVERS - 1)", "0", "-1");
+        })
+            .brokenBy("SOLVERS = 6", "6", "5")
+            .brokenBy("SOLVERS = 6", "6", "7")
+            .brokenBy("isWithin(solver, 0, SOLVERS - 1)", "0", "-1");
 
         e.edge("each with trust, 0 to 100 (50 at first)", d -> {
             for (int solver = 0; solver < 6; solver++) {
@@ -454,8 +476,11 @@ final class EdgesOfTerms {
                 d.due("trust(" + solver + ", 100)", d.x.trust(solver, 100), 0);
                 d.due("solver(" + solver + ", 0)", d.x.solver(solver, 0), 100);
             }
-        }).brokenBy("MOST_TRUST = 100", "100", "99").brokenBy("MOST_TRUST = 100", "100", "101")
-            .brokenBy("FIRST_TRUST = 50", "50", "49").brokenBy("isWithin(trust, 0, MOST_TRUST)", "0", "-1")
+        })
+            .brokenBy("MOST_TRUST = 100", "100", "99")
+            .brokenBy("MOST_TRUST = 100", "100", "101")
+            .brokenBy("FIRST_TRUST = 50", "50", "49")
+            .brokenBy("isWithin(trust, 0, MOST_TRUST)", "0", "-1")
             .brokenBy("isWithin(trust, 0, MOST_TRUST)", "0", "1");
 
         e.edge("A solver answers a pair: a known or solved word, and an unknown one, in some seconds", d -> {
@@ -472,7 +497,8 @@ final class EdgesOfTerms {
         }).brokenBy("return kind == KNOWN || kind == SOLVED;", "kind == KNOWN || kind == SOLVED", "kind == KNOWN")
             .brokenBy("return kind == KNOWN || kind == SOLVED;", "kind == KNOWN || kind == SOLVED", "kind == SOLVED")
             .brokenBy("return kind == KNOWN || kind == SOLVED;", "kind == KNOWN || kind == SOLVED", "kind != UNKNOWN")
-            .brokenBy("other.kind != UNKNOWN", "other.kind == SOLVED").brokenBy("other.kind != UNKNOWN", "other.kind == KNOWN");
+            .brokenBy("other.kind != UNKNOWN", "other.kind == SOLVED")
+            .brokenBy("other.kind != UNKNOWN", "other.kind == KNOWN");
     }
 
     private static void rightAndWrong(Edges e) {
@@ -488,13 +514,16 @@ final class EdgesOfTerms {
             d.answer("0:0=cat+1=tac@9");
             d.due("right answers behind cat", d.x.solver(0, 2), 1);
             d.due("missed behind cat", d.x.word(0, 7), wrong.length);
-        }).brokenBy("told.letters == said.told.letters", "told.letters == said.told.letters >> LETTER_BITS || told.letters == said.told.letters")
+        })
+            .brokenBy("told.letters == said.told.letters",
+                "told.letters == said.told.letters >> LETTER_BITS || told.letters == said.told.letters")
             .brokenBy("told.letters == said.told.letters", "told.letters >> LETTER_BITS == said.told.letters >> LETTER_BITS")
             .brokenBy("told.letters == said.told.letters", "(told.letters & 1023) == (said.told.letters & 1023)")
             .brokenBy("told.letters == said.told.letters", "told.letters == said.other.letters")
             .brokenBy("told.letters == said.told.letters", "lettersIn(told.letters) == lettersIn(said.told.letters)");
 
-        e.edge("the answer to the unknown word becomes a vote for it, with the trust of the solver (as it is ahead of this, also if"
+        e.edge("the answer to the unknown word becomes a vote for it, with the trust of the solver (as it is ahead of"
+            + " this, also if"
             + " that is 0) as its weight, and these seconds", d -> {
             d.catAnd(9, 9);
             d.x.trust(0, 0);
@@ -511,7 +540,8 @@ final class EdgesOfTerms {
             d.right(1, 2, "c", 1);
             d.dueVote(2, 1, 1, 50);
         }).brokenBy("takeVote(said.other, weight,", "weight", "solver.trust")
-            .brokenBy("takeVote(said.other, weight, said.seconds);", "if (weight > 0) { takeVote(said.other, weight, said.seconds); }")
+            .brokenBy("takeVote(said.other, weight, said.seconds);",
+                "if (weight > 0) { takeVote(said.other, weight, said.seconds); }")
             .brokenBy("takeVote(said.other, weight, said.seconds);", "weight", "Math.max(1, weight)")
             .brokenBy("word.seconds += seconds;", "word.seconds = seconds;");
 
@@ -534,11 +564,13 @@ final class EdgesOfTerms {
             d.right(3, 1, "b", 9);
             d.due("trust of 50 and 0 more", d.x.solver(3, 0), 50);
         }).brokenBy("Math.min(MOST_TRUST, trust + settings[UP])", "trust + settings[UP]")
-            .brokenBy("Math.min(MOST_TRUST, trust + settings[UP])", "trust + settings[UP] > MOST_TRUST ? trust : trust + settings[UP]")
+            .brokenBy("Math.min(MOST_TRUST, trust + settings[UP])",
+                "trust + settings[UP] > MOST_TRUST ? trust : trust + settings[UP]")
             .brokenBy("Math.min(MOST_TRUST, trust + settings[UP])", "Math.min(MOST_TRUST - 1, trust + settings[UP])")
             .brokenBy("solver.trust = trustBehindRight(weight);", "");
 
-        e.edge("Otherwise it is wrong: there is no vote, the word that was answered wrong is missed once more, and the trust becomes"
+        e.edge("Otherwise it is wrong: there is no vote, the word that was answered wrong is missed once more, and"
+            + " the trust becomes"
             + " DOWN less, 0 at least", d -> {
             int[][] trusts = {{100, 90}, {11, 1}, {10, 0}, {9, 0}, {1, 0}, {0, 0}};
             d.catAnd(9);
@@ -560,8 +592,10 @@ final class EdgesOfTerms {
             d.due("word(1, 2)", d.x.word(1, 2), 0);
         }).brokenBy("Math.max(0, solver.trust - settings[DOWN])", "solver.trust - settings[DOWN]")
             .brokenBy("Math.max(0, solver.trust - settings[DOWN])", "Math.max(1, solver.trust - settings[DOWN])")
-            .brokenBy("Math.max(0, solver.trust - settings[DOWN])", "solver.trust < settings[DOWN] ? solver.trust : solver.trust - settings[DOWN]")
-            .brokenBy("told.missed++;", "told.missed = 1;").brokenBy("told.missed++;", "words[said.other.word].missed++;")
+            .brokenBy("Math.max(0, solver.trust - settings[DOWN])",
+                "solver.trust < settings[DOWN] ? solver.trust : solver.trust - settings[DOWN]")
+            .brokenBy("told.missed++;", "told.missed = 1;")
+            .brokenBy("told.missed++;", "words[said.other.word].missed++;")
             .brokenBy("told.missed++;", "told.missed++; takeVote(said.other, 0, said.seconds);");
     }
 
@@ -585,10 +619,13 @@ final class EdgesOfTerms {
             d.due("99 of 10 and 90", d.right(0, 3, "a", 9), 1);
             d.x.trust(0, 1);
             d.due("100 of 10 and 90", d.right(0, 3, "a", 9), 2);
-        }).brokenBy("WEIGHT_PER_BEND = 10", "10", "9").brokenBy("WEIGHT_PER_BEND = 10", "10", "11")
+        })
+            .brokenBy("WEIGHT_PER_BEND = 10", "10", "9")
+            .brokenBy("WEIGHT_PER_BEND = 10", "10", "11")
             .brokenBy("if (weightLacking(number) > 0) {", "> 0", "> 1")
             .brokenBy("int forWeight = settings[AGREE]", "settings[AGREE]", "1 + settings[AGREE]")
-            .brokenBy("settings[AGREE] + WEIGHT_PER_BEND * words[word].bend", "Math.max(settings[AGREE], WEIGHT_PER_BEND * words[word].bend)");
+            .brokenBy("settings[AGREE] + WEIGHT_PER_BEND * words[word].bend",
+                "Math.max(settings[AGREE], WEIGHT_PER_BEND * words[word].bend)");
 
         e.edge(sentence, d -> {
             d.x.set(BentWords.EARLY, 0);
@@ -678,7 +715,9 @@ final class EdgesOfTerms {
                 }
                 d.due("EARLY " + row[0] + ", with " + row[1] + " votes", d.right(0, 1, "a", 9), row[2]);
             }
-        }).brokenBy("votes <= settings[EARLY]", "votes < settings[EARLY]").brokenBy("votes <= settings[EARLY]", "votes <= settings[EARLY] + 1")
+        })
+            .brokenBy("votes <= settings[EARLY]", "votes < settings[EARLY]")
+            .brokenBy("votes <= settings[EARLY]", "votes <= settings[EARLY] + 1")
             .brokenBy("votes <= settings[EARLY]", "settings[EARLY] > 0 && votes <= settings[EARLY] - 1");
 
         e.edge(early, d -> {
@@ -704,7 +743,8 @@ final class EdgesOfTerms {
             }
         }).brokenBy("mean(seconds, votes) < settings[FAST]", "<", "<=")
             .brokenBy("mean(seconds, votes) < settings[FAST]", "< settings[FAST]", "< settings[FAST] - 1")
-            .brokenBy("retiredSoFar++;", "").brokenBy("isTooSoon ? RETIRED : SOLVED", "isTooSoon ? UNKNOWN : SOLVED");
+            .brokenBy("retiredSoFar++;", "")
+            .brokenBy("isTooSoon ? RETIRED : SOLVED", "isTooSoon ? UNKNOWN : SOLVED");
 
         e.edge(fast, d -> {
             int[][] rows = {{4, 5, 6, 2}, {4, 5, 5, 3}, {1, 1, 13, 2}, {1, 1, 12, 3}, {1, 12, 1, 3}, {13, 1, 1, 2}};
