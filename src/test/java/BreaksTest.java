@@ -24,6 +24,10 @@ public final class BreaksTest {
     private BreaksTest() { }
 
     public static void main(String[] args) throws IOException {
+        if (ToolProvider.getSystemJavaCompiler() == null) {
+            System.out.println("this java has no compiler in it: no breaks are tried");
+            return;
+        }
         String source = Files.readString(SOURCE);
         List<Edges.Edge> edges = Edges.ofTheDocument();
         List<String> unseen = IntStream.range(0, edges.size()).parallel().boxed()
