@@ -32,8 +32,8 @@ public final class BentWords {
     private final boolean[] saved;
 
     public BentWords() {
-        pad = new Pad();
-        reading = new Reading(pad);
+        reading = new Reading();
+        pad = reading.pad;
         now = new State();
         history = new State[MOST_CHANGES];
         for (int i = 0; i < MOST_CHANGES; i++) {
@@ -435,15 +435,11 @@ public final class BentWords {
 
     /** Reads the pad from left to right; stops at the first character that cannot stand at its place. */
     private static final class Reading {
-        private final Pad pad;
+        final Pad pad = new Pad();
         private int at;
         int solver, seconds;
         final Part told = new Part();
         final Part other = new Part();
-
-        Reading(Pad pad) {
-            this.pad = pad;
-        }
 
         /** Returns the letters, 0 if the pad is anything else. */
         int readWholeAsLetters() {

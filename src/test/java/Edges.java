@@ -2,7 +2,7 @@ import java.util.ArrayList;
 import java.util.List;
 import java.util.function.Consumer;
 
-/** The sentences of the document that name a boundary, each with the calls that hold it there. */
+/** The sentences of the document, each with the calls that hold it. */
 final class Edges {
     /** A change to the class that breaks a sentence: the first 'old' that stands at or behind the anchor. */
     record Break(String anchor, String old, String broken) {
@@ -64,6 +64,7 @@ final class Edges {
         EdgesOfWhatIf.addTo(edges);
         EdgesOfTexts.addTo(edges);
         EdgesOfSaving.addTo(edges);
+        PlainSentences.addTo(edges);
         return edges.all;
     }
 }

@@ -339,7 +339,7 @@ final class EdgesOfTerms {
             .brokenBy("MOST_BEND = 9", "9", "8")
             .brokenBy("MOST_BEND = 9", "9", "10");
 
-        e.edge("a kind: 0 known, with what it is told; 1 unknown; 2 solved, with what it was agreed on; 3 retired", d -> {
+        e.edge("and a kind: 0 known, with what it is told; 1 unknown; 2 solved, with what it was agreed on; 3 retired", d -> {
             d.oneOfEachKind();
             for (int kind = 0; kind < 4; kind++) {
                 d.due("word(" + kind + ", 0)", d.x.word(kind, 0), kind);
