@@ -30,6 +30,7 @@ public final class FaceTest {
         constants();
         constructors();
         classesInside();
+        lengths();
         words();
         d.end();
     }
@@ -100,7 +101,39 @@ public final class FaceTest {
                 d.due(field + " is no static state", field.getModifiers() & Modifier.STATIC, 0);
             }
             d.due("fields of " + one + ", at most 20", Math.max(20, fields), 20);
+            d.due(one + " is final, and of no other class", one.isInterface() || one.isEnum()
+                || Modifier.isFinal(one.getModifiers()) && one.getSuperclass() == Object.class ? 1 : 0, 1);
+            for (Method method : one.getDeclaredMethods()) {
+                d.due(method + " is not public or protected", method.getModifiers() & (Modifier.PUBLIC | Modifier.PROTECTED), 0);
+                d.due(method + " bears a public name", METHODS.stream().anyMatch(it -> it.startsWith(method.getName() + "(")) ? 1 : 0, 0);
+                d.due("parameters of " + method + ", at most 7", Math.max(7, method.getParameterCount()), 7);
+            }
         }
+    }
+
+    /** Rule 11: a method stays short. They are told apart by how far they stand from the edge, as all of the class is written. */
+    private static void lengths() throws IOException {
+        String[] lines = Files.readString(Path.of("src/main/java/BentWords.java")).split("\n");
+        int methods = 0;
+        for (int i = 0; i < lines.length; i++) {
+            Matcher head = Pattern.compile("( {4}| {8})(?!private static final class)\\w.*\\) \\{").matcher(lines[i]);
+            if (head.matches()) {
+                int end = i;
+                while (end < lines.length && !lines[end].equals(head.group(1) + "}")) {
+                    end++;
+                }
+                String inside = lines[i].strip();
+                if (!inside.startsWith("if ") && !inside.startsWith("for ") && !inside.startsWith("while ") && !inside.startsWith("switch ")) {
+                    methods++;
+                    d.due("lines of " + inside + ", at most 60", Math.max(60, end - i + 1), 60);
+                }
+            }
+        }
+        int declared = BentWords.class.getDeclaredMethods().length + 1;
+        for (Class<?> one : BentWords.class.getDeclaredClasses()) {
+            declared += one.getDeclaredMethods().length;
+        }
+        d.due("methods seen, and no constructor but two", methods, declared + 1);
     }
 
     private static void words() throws IOException {
